@@ -79,7 +79,7 @@ public final class TwoInOne {
     private final int[] tape = new int[MOST_BYTES];
     private int tapeLength = 0;
     private final Told told = new Told();
-    private final Reader reader = new Reader();
+    private final Reader reader = new Reader(tape);
     private final State now = new State();
     private final History history = new History();
     private final Row lying = new Row(MOST_DAYS_ASKED);
@@ -125,7 +125,7 @@ public final class TwoInOne {
     }
 
     public int register() {
-        if (!reader.read(tape, tapeLength)) {
+        if (!reader.read(tapeLength)) {
             return NONE;
         }
         told.copyFrom(reader.draft);
@@ -636,7 +636,7 @@ public final class TwoInOne {
         private final long[] halfNames = new long[MOST_HALVES];
         private final long[] personNames = new long[MOST_PERSONS];
         private final long[] deedNames = new long[MOST_DEEDS];
-        private final int[] text = new int[MOST_BYTES];
+        private final int[] text;
         private int length = 0;
         private int fault = 0;
         private int place = NONE;
@@ -651,9 +651,12 @@ public final class TwoInOne {
         private int unitsOfOne;
         private int codeLength;
 
-        boolean read(int[] tape, int tapeLength) {
-            length = Math.max(0, Math.min(tapeLength, Math.min(MOST_BYTES, tape.length)));
-            System.arraycopy(tape, 0, text, 0, length);
+        Reader(int[] tape) {
+            text = tape;
+        }
+
+        boolean read(int bytes) {
+            length = Math.max(0, Math.min(bytes, text.length));
             draft.empty();
             fault = 0;
             place = NONE;
