@@ -544,7 +544,6 @@ public final class TwoInOne {
         private final int[] placeOf = new int[MOST_HALVES];
         private final int[] liking = new int[MOST_HALVES * MOST_HALVES];
         private final int[] members = new int[MOST_PERSONS];
-        private final int[] memberAt = new int[MOST_PERSONS * MOST_MEMBERS];
         private final int[] places = new int[MOST_PERSONS];
         private final int[] turn = new int[MOST_PERSONS * MOST_PLACES];
         private final int[] joyStart = new int[MOST_DEEDS];
@@ -583,7 +582,6 @@ public final class TwoInOne {
             System.arraycopy(other.placeOf, 0, placeOf, 0, MOST_HALVES);
             System.arraycopy(other.liking, 0, liking, 0, MOST_HALVES * MOST_HALVES);
             System.arraycopy(other.members, 0, members, 0, MOST_PERSONS);
-            System.arraycopy(other.memberAt, 0, memberAt, 0, MOST_PERSONS * MOST_MEMBERS);
             System.arraycopy(other.places, 0, places, 0, MOST_PERSONS);
             System.arraycopy(other.turn, 0, turn, 0, MOST_PERSONS * MOST_PLACES);
             System.arraycopy(other.joyStart, 0, joyStart, 0, MOST_DEEDS);
@@ -636,6 +634,8 @@ public final class TwoInOne {
         private final long[] halfNames = new long[MOST_HALVES];
         private final long[] personNames = new long[MOST_PERSONS];
         private final long[] deedNames = new long[MOST_DEEDS];
+        /** HALVES of the PERSON that is read, by their places. */
+        private final int[] memberAt = new int[MOST_MEMBERS];
         private final int[] text;
         private int length = 0;
         private int fault = 0;
@@ -757,7 +757,7 @@ public final class TwoInOne {
             }
             draft.personOf[half] = person;
             draft.placeOf[half] = draft.members[person];
-            draft.memberAt[person * MOST_MEMBERS + draft.members[person]] = half;
+            memberAt[draft.members[person]] = half;
             draft.members[person]++;
             return true;
         }
@@ -768,7 +768,7 @@ public final class TwoInOne {
                 if (!takeNumber(draft.members[person] - 1)) {
                     return false;
                 }
-                draft.turn[person * MOST_PLACES + i] = draft.memberAt[person * MOST_MEMBERS + taken];
+                draft.turn[person * MOST_PLACES + i] = memberAt[taken];
                 draft.places[person]++;
             }
             return true;

@@ -230,6 +230,23 @@ public final class GamesTest {
             + "deed d joy 5 * (skill > 1) - load load load;deed e joy 6 * (skill > 1) - load load load + 3 * (skill > 1);");
         later.next(0);
         CHECK.due("four cares", later.cares(0, 1), 4);
+        // one DAY of nine is a's: he is IN again nine DAYS behind
+        TwoInOne nine = Check.of("half a skill 3;half b skill 1;person p of a b turn 0 1 1 1 1 1 1 1 1;"
+            + "deed d joy 5 * (skill > 1) - load load load;deed e joy 6 * (skill > 1) - load load load + 3 * (skill > 1);");
+        nine.next(0);
+        CHECK.due("nine cares", nine.cares(0, 1), 9);
+        TwoInOne ten = Check.of("half a skill 3;half b skill 1;person p of a b turn 0 1 1 1 1 1 1 1 1 1;"
+            + "deed d joy 5 * (skill > 1) - load load load;deed e joy 6 * (skill > 1) - load load load + 3 * (skill > 1);");
+        ten.next(0);
+        CHECK.due("nine cares are not enough", ten.cares(0, 1), -1);
+        // d: LOAD is his skill; with LOAD 7 b would do e, with LOAD 2 d, whatever he cares
+        TwoInOne skilled = Check.of("half a skill 7;half b skill 2;person p of a b turn 0 1;"
+            + "deed d joy 1 load skill;deed e joy (load = 7) * 2 load 0;");
+        skilled.next(0);
+        skilled.next(1);
+        CHECK.due("who did it counts for the LOAD", skilled.cares(0, 2), 0);
+        CHECK.due("and then a does d", skilled.cares(0, 3), 0);
+        CHECK.due("and so on", skilled.cares(0, 4), 0);
     }
 
     private static void bargainOfNobody() {

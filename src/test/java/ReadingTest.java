@@ -19,6 +19,8 @@ public final class ReadingTest {
         favoursAndDraw();
         tooMany();
         firstFaultCounts();
+        cutShort();
+        bytesBehindTheEnd();
         CHECK.finish();
     }
 
@@ -295,5 +297,44 @@ public final class ReadingTest {
         CHECK.faulty("^x y z !", 2);
         CHECK.faulty("half ^! skill 10;", 1);
         CHECK.faulty(TWO + "person p of ^c c turn 9;", 5);
+    }
+
+    /** A line that is over too early: the ; can't stand there, and neither can the end. */
+    private static void cutShort() {
+        String told = TWO + "half c skill 1;";
+        String[] lines = {"half d skill 1", "half d skill 1 cares 1", "like a to b 1", "person p of a b turn 0",
+            "deed d joy 1 + 1 < 1 and not 1 or ( 1 * 1 ) load 1", "deed d joy 1 load 1 - 1", "deed d joy 1 load 1 and 1",
+            "deed d joy 1 load not ( 1 )", "deed d joy 1 load 1 > 1", "favour a 1", "draw 1"};
+        String[] whole = {"half d skill 1", "deed d joy 1 load 1", "deed d joy 1 load 1"};
+        for (String line : lines) {
+            String[] words = line.split(" ");
+            StringBuilder part = new StringBuilder();
+            for (int i = 0; i + 1 < words.length; i++) {
+                part.append(i == 0 ? "" : " ").append(words[i]);
+                if (!java.util.Arrays.asList(whole).contains(part.toString())) {
+                    CHECK.faulty(told + part + "^;", 2);
+                    CHECK.faulty(told + part + "^", 2);
+                }
+            }
+            CHECK.fine(told + line + ";", line.startsWith("half") ? 4 : 3);
+        }
+    }
+
+    /** What was on the TAPE behind its end does not count. */
+    private static void bytesBehindTheEnd() {
+        String[][] rows = {{"draw 1", "x"}, {"draw 1", "1"}, {"half a", "b"}, {"half", " "}};
+        for (String[] row : rows) {
+            TwoInOne x = new TwoInOne();
+            Check.write(x, row[0] + row[1] + " skill 1;");
+            x.end(row[0].length());
+            CHECK.due("register() of '" + row[0] + "'", x.register(), -1);
+            CHECK.due("its FAULT", x.fault(0), 2);
+            CHECK.due("its place", x.fault(1), row[0].length());
+        }
+        TwoInOne x = new TwoInOne();
+        Check.write(x, "half a skill 1;draw 1;");
+        x.end(15);
+        CHECK.due("register() of the first line", x.register(), 1);
+        CHECK.due("the draw is not told", x.about(4), 0);
     }
 }
