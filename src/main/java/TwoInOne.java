@@ -862,7 +862,8 @@ public final class TwoInOne {
         }
 
         private boolean unit(int depth) {
-            if (unitsOfOne >= MOST_UNITS_OF_ONE || draft.units >= MOST_UNITS) {
+            boolean tooDeep = token == '(' && depth >= MOST_NESTED;
+            if (tooDeep || unitsOfOne >= MOST_UNITS_OF_ONE || draft.units >= MOST_UNITS) {
                 return refuse(FAULT_MISPLACED);
             }
             unitsOfOne++;
@@ -871,22 +872,16 @@ public final class TwoInOne {
             switch (token) {
                 case NUMBER: fine = emit(number); break;
                 case LOAD: case DAY: case SKILL: case AGAIN: fine = emit(-token); break;
-                case '(': fine = nested(depth); break;
+                case '(':
+                    advance();
+                    fine = formula(LEVEL_OR, depth + 1) && (token == ')' || refuse(FAULT_MISPLACED));
+                    break;
                 default: fine = refuse(FAULT_MISPLACED);
             }
             if (fine) {
                 advance();
             }
             return fine;
-        }
-
-        /** From ( on up to the ) that closes it, which is looked at then. */
-        private boolean nested(int depth) {
-            if (depth >= MOST_NESTED) {
-                return refuse(FAULT_MISPLACED);
-            }
-            advance();
-            return formula(LEVEL_OR, depth + 1) && (token == ')' || refuse(FAULT_MISPLACED));
         }
 
         private boolean emit(int step) {
