@@ -8,6 +8,11 @@ public final class TwoInOne {
     /** What is answered where NONE has a meaning of its own. */
     private static final int WRONG = -2;
 
+    private static final int GREATEST_INT = 0x7FFFFFFF;
+    private static final int LEAST_INT = 0x80000000;
+    private static final int INT_BITS = 32;
+    private static final long INT_MASK = 0xFFFFFFFFL;
+    private static final long ALL_INTS = 1L << INT_BITS;
     private static final int MOST_BYTES = 1600;
     private static final int FED_BYTES = 20;
     private static final int MOST_HALVES = 8;
@@ -36,6 +41,8 @@ public final class TwoInOne {
     private static final int MOST_ACTS = 40;
     private static final int BOXES = 3;
     private static final int MOST_TOLD_IN_BARGAIN = 14;
+    private static final int FEW_SUMS = 1 << 15;
+    private static final int MANY_SUMS = 1 << 18;
     private static final int MOST_SIGHTS = 30;
     private static final int LAST_SIGHT_DAY = 99;
     private static final int MOST_TIME = 100000;
@@ -85,9 +92,10 @@ public final class TwoInOne {
     private final Row lying = new Row(MOST_DAYS_ASKED);
     private final Course course = new Course(told, now);
     private final Game game = new Game(told, now, course);
-    private final Bargain bargain = new Bargain(told, now, course);
+    /** Made when they are first needed: they take much room, and where sums do not wrap nobody needs them. */
+    private Sums fewSums = null;
+    private Search search = null;
     private final Pairings pairings = new Pairings(told, now);
-    private final Votes votes = new Votes(told, now, course);
     private final Sights sights = new Sights(told);
 
     public TwoInOne() {
@@ -133,7 +141,7 @@ public final class TwoInOne {
         now.begin(told);
         history.restart(now);
         history.emptyBoxes();
-        bargain.row.clear();
+        game.bargain.clear();
         sights.clear();
         lying.clear();
         return told.halves;
@@ -315,9 +323,7 @@ public final class TwoInOne {
         if (!told.isMember(person, half) || !isAskedFor(n)) {
             return GAP;
         }
-        game.play(person, n, false);
-        game.tellRow(lying);
-        return game.worthOf(told.placeOf[half]);
+        return game.playEach(person, told.placeOf[half], n, lying);
     }
 
     private static boolean isAskedFor(int n) {
@@ -329,44 +335,58 @@ public final class TwoInOne {
         if (!told.hasPerson(person) || !isAskedFor(n)) {
             return GAP;
         }
-        game.play(person, n, true);
-        game.tellRow(lying);
-        return game.worthOfAll();
+        int load = now.load[person];
+        game.playAll(person, n);
+        if (!game.canWrap(0, load, 0)) {
+            game.tellRow(lying);
+            return (int) game.mostAt(0, load);
+        }
+        if (fewSums == null) {
+            fewSums = new Sums(told, game, FEW_SUMS);
+        }
+        fewSums.begin();
+        if (fewSums.isKnown(0, load)) {
+            return fewSums.tellBest(load, lying);
+        }
+        if (search == null) {
+            search = new Search(told, game);
+        }
+        return search.tellBest(load, lying);
     }
 
     public int next(int deed) {
-        if (!told.hasDeed(deed) || bargain.row.size >= MOST_TOLD_IN_BARGAIN) {
+        if (!told.hasDeed(deed) || game.bargain.size >= MOST_TOLD_IN_BARGAIN) {
             return NONE;
         }
-        bargain.row.add(deed);
-        return bargain.row.size;
+        game.bargain.add(deed);
+        return game.bargain.size;
     }
 
     public int hush() {
-        int had = bargain.row.size;
-        bargain.row.clear();
+        int had = game.bargain.size;
+        game.bargain.clear();
         return had;
     }
 
     public int breaks(int person, int n) {
-        if (!told.hasPerson(person) || !isAskedFor(n) || bargain.row.size == 0) {
+        if (!told.hasPerson(person) || !isAskedFor(n) || game.bargain.size == 0) {
             return WRONG;
         }
-        return bargain.firstBreak(person, n);
+        return game.firstBreak(person, n);
     }
 
     public int cares(int person, int n) {
-        if (!told.hasPerson(person) || !isAskedFor(n) || bargain.row.size == 0) {
+        if (!told.hasPerson(person) || !isAskedFor(n) || game.bargain.size == 0) {
             return WRONG;
         }
-        return bargain.fewestCares(person, n);
+        return game.fewestCares(person, n);
     }
 
     public int keeps(int person, int half, int n) {
-        if (!told.isMember(person, half) || !isAskedFor(n) || bargain.row.size == 0) {
+        if (!told.isMember(person, half) || !isAskedFor(n) || game.bargain.size == 0) {
             return GAP;
         }
-        return bargain.keptJoy(person, half, 0, now.load[person], n);
+        return game.keptJoy(person, half, 0, now.load[person], n);
     }
 
     public int pairing(boolean fast) {
@@ -392,18 +412,18 @@ public final class TwoInOne {
         if (day < 0 || day > LAST_SEEN_AHEAD) {
             return NONE;
         }
-        return votes.winnerOn(day);
+        return course.winnerOn(day);
     }
 
     public int popular() {
-        return votes.mostFavoured();
+        return course.mostFavoured();
     }
 
     public int stolen(int n) {
         if (n < 0 || n > MOST_DAYS_OF_VOTES) {
             return NONE;
         }
-        return votes.daysLost(n);
+        return course.daysLost(n);
     }
 
     public int lies(int i) {
@@ -491,7 +511,7 @@ public final class TwoInOne {
             case 4: return now.seed;
             case 5: return history.past;
             case 6: return history.future;
-            case 7: return bargain.row.size;
+            case 7: return game.bargain.size;
             case 8: return sights.count;
             case 9: return sights.time;
             case 10: return tapeLength;
@@ -1163,11 +1183,12 @@ public final class TwoInOne {
         }
     }
 
-    /** How DAYS go: who is IN, what comes of DEEDS, what is CHOSEN. */
+    /** How DAYS go: who is IN, what comes of DEEDS, what is CHOSEN, who is elected. */
     private static final class Course {
         private final Told told;
         private final State now;
         private final int[] stack = new int[MOST_UNITS_OF_ONE];
+        private final int[] votes = new int[MOST_FAVOURED + 1];
         /** How things stand on the DAY looked at. */
         private int day;
         private int skill;
@@ -1323,22 +1344,74 @@ public final class TwoInOne {
             now.did[half * MOST_DEEDS + deed]++;
             now.load[person] = loadAfter(deed, load);
         }
+
+        /** Who is elected on a DAY; NONE if nobody votes. */
+        int winnerOn(int onDay) {
+            Arrays.fill(votes, 0);
+            for (int person = 0; person < told.persons; person++) {
+                addVote(whoIn(person, onDay));
+            }
+            return winner();
+        }
+
+        int mostFavoured() {
+            Arrays.fill(votes, 0);
+            for (int half = 0; half < told.halves; half++) {
+                addVote(now.alive[half] == 1 ? half : NONE);
+            }
+            return winner();
+        }
+
+        private void addVote(int half) {
+            if (told.hasHalf(half)) {
+                votes[Math.min(MOST_FAVOURED, told.favoured(half))]++;
+            }
+        }
+
+        private int winner() {
+            int best = NONE;
+            int most = 0;
+            for (int i = 0; i <= MOST_FAVOURED; i++) {
+                if (votes[i] > most) {
+                    best = i;
+                    most = votes[i];
+                }
+            }
+            return best;
+        }
+
+        int daysLost(int n) {
+            int wanted = mostFavoured();
+            int lost = 0;
+            for (int i = 0; i < n; i++) {
+                int winner = winnerOn(now.day + i);
+                if (winner == NONE || winner != wanted) {
+                    lost++;
+                }
+            }
+            return lost;
+        }
     }
 
-    /** Games over DAYS played to the end, by what is best for who is IN or for all. */
+    /** What is asked of a PERSON for DAYS to come: PLAYED, TOGETHER and the BARGAIN. */
     private static final class Game {
         private static final int LOADS = MOST_LOAD + 1;
+        private static final int CELLS = MOST_DAYS_ASKED * LOADS;
         private static final int UNSOLVED = -2;
 
         private final Told told;
         private final State now;
         private final Course course;
-        /** By DAY and LOAD: what is done, and JOY of each member from then to the end. */
-        private final int[] choice = new int[MOST_DAYS_ASKED * LOADS];
-        private final int[] worth = new int[MOST_DAYS_ASKED * LOADS * MOST_MEMBERS];
+        /** By DAY and LOAD: what is done. */
+        private final int[] choice = new int[CELLS];
+        /** PLAYED, by DAY, LOAD and member: his JOY from then to the end. */
+        private final int[] worth = new int[CELLS * MOST_MEMBERS];
+        /** TOGETHER, by DAY and LOAD: JOY of all from then to the end, at most and at least, if sums did not wrap. */
+        private final long[] most = new long[CELLS];
+        private final long[] least = new long[CELLS];
+        private final Row bargain = new Row(MOST_TOLD_IN_BARGAIN);
         private int person;
         private int length;
-        private boolean forAll;
 
         Game(Told told, State now, Course course) {
             this.told = told;
@@ -1346,49 +1419,56 @@ public final class TwoInOne {
             this.course = course;
         }
 
-        void play(int whose, int n, boolean shared) {
+        private void begin(int whose, int n) {
             person = whose;
             length = Math.max(0, Math.min(MOST_DAYS_ASKED, n));
-            forAll = shared;
             Arrays.fill(choice, UNSOLVED);
-            solve(0, now.load[whose]);
+        }
+
+        private static int cell(int t, int load) {
+            return t * LOADS + Math.max(0, Math.min(MOST_LOAD, load));
+        }
+
+        /** PLAYED: JOY of a member; the row is told. */
+        int playEach(int whose, int member, int n, Row row) {
+            begin(whose, n);
+            int load = now.load[whose];
+            solveEach(0, load);
+            tellRow(row);
+            return worthAt(0, load, member);
         }
 
         /** Only LOADS that can come about are solved, each once; the DAYS asked bound the depth. */
-        private void solve(int t, int load) {
+        private void solveEach(int t, int load) {
             if (t >= length || choice[cell(t, load)] != UNSOLVED) {
                 return;
             }
             int half = course.whoIn(person, now.day + t);
             int best = NONE;
-            int most = 0;
+            int bestSum = 0;
             int bestJoy = 0;
             int bestLoad = load;
             for (int deed = 0; deed < told.deeds && half != NONE; deed++) {
                 course.stand(person, now.day + t);
                 int joy = course.joyOf(deed, load);
                 int loadThen = course.loadAfter(deed, load);
-                solve(t + 1, loadThen);
-                int sum = joy + (forAll ? allWorth(t + 1, loadThen) : worthAt(t + 1, loadThen, told.placeOf[half]));
-                if (best == NONE || sum > most) {
+                solveEach(t + 1, loadThen);
+                int sum = joy + worthAt(t + 1, loadThen, told.placeOf[half]);
+                if (best == NONE || sum > bestSum) {
                     best = deed;
-                    most = sum;
+                    bestSum = sum;
                     bestJoy = joy;
                     bestLoad = loadThen;
                 }
             }
             if (best == NONE) {
-                solve(t + 1, load);
+                solveEach(t + 1, load);
             }
             settle(cell(t, load), t + 1, bestLoad);
             choice[cell(t, load)] = best;
             if (best != NONE) {
                 worth[cell(t, load) * MOST_MEMBERS + told.placeOf[half]] += bestJoy;
             }
-        }
-
-        private static int cell(int t, int load) {
-            return t * LOADS + Math.max(0, Math.min(MOST_LOAD, load));
         }
 
         private void settle(int cell, int t, int load) {
@@ -1399,22 +1479,6 @@ public final class TwoInOne {
 
         private int worthAt(int t, int load, int member) {
             return t >= length ? 0 : worth[cell(t, load) * MOST_MEMBERS + member];
-        }
-
-        private int allWorth(int t, int load) {
-            int sum = 0;
-            for (int member = 0; member < MOST_MEMBERS; member++) {
-                sum += worthAt(t, load, member);
-            }
-            return sum;
-        }
-
-        int worthOf(int member) {
-            return worthAt(0, now.load[person], member);
-        }
-
-        int worthOfAll() {
-            return allWorth(0, now.load[person]);
         }
 
         void tellRow(Row row) {
@@ -1428,31 +1492,72 @@ public final class TwoInOne {
                 }
             }
         }
-    }
 
-    /** A row of DEEDS told, round and round, and who would keep to it. */
-    private static final class Bargain {
-        private final Told told;
-        private final State now;
-        private final Course course;
-        private final Row row = new Row(MOST_TOLD_IN_BARGAIN);
+        /** TOGETHER, if sums did not wrap. */
+        void playAll(int whose, int n) {
+            begin(whose, n);
+            solveAll(0, now.load[whose]);
+        }
 
-        Bargain(Told told, State now, Course course) {
-            this.told = told;
-            this.now = now;
-            this.course = course;
+        /** As solveEach, for all, with sums that do not wrap. */
+        private void solveAll(int t, int load) {
+            if (t >= length || choice[cell(t, load)] != UNSOLVED) {
+                return;
+            }
+            int half = course.whoIn(person, now.day + t);
+            int best = NONE;
+            long high = 0;
+            long low = 0;
+            for (int deed = 0; deed < told.deeds && half != NONE; deed++) {
+                course.stand(person, now.day + t);
+                int joy = course.joyOf(deed, load);
+                int loadThen = course.loadAfter(deed, load);
+                solveAll(t + 1, loadThen);
+                long atMost = joy + mostAt(t + 1, loadThen);
+                long atLeast = joy + leastAt(t + 1, loadThen);
+                low = best == NONE ? atLeast : Math.min(low, atLeast);
+                if (best == NONE || atMost > high) {
+                    best = deed;
+                    high = atMost;
+                }
+            }
+            if (best == NONE) {
+                solveAll(t + 1, load);
+                high = mostAt(t + 1, load);
+                low = leastAt(t + 1, load);
+            }
+            choice[cell(t, load)] = best;
+            most[cell(t, load)] = high;
+            least[cell(t, load)] = low;
+        }
+
+        long mostAt(int t, int load) {
+            return t >= length ? 0 : most[cell(t, load)];
+        }
+
+        private long leastAt(int t, int load) {
+            return t >= length ? 0 : least[cell(t, load)];
+        }
+
+        /** False if sums of all rows from here on, behind such a sum, wrap as often: then what is more stays more. */
+        boolean canWrap(int t, int load, int sum) {
+            if (t >= length) {
+                return false;
+            }
+            long base = (long) sum - LEAST_INT;
+            return (base + least[cell(t, load)]) >> INT_BITS != (base + most[cell(t, load)]) >> INT_BITS;
         }
 
         private int deedOn(int t) {
-            return row.size < 1 ? NONE : row.at(t % row.size);
+            return bargain.size < 1 ? NONE : bargain.at(t % bargain.size);
         }
 
         /** JOY of a HALF on the DAYS from the t-th to the n-th, the BARGAIN kept. */
-        int keptJoy(int person, int half, int from, int loadThen, int n) {
+        int keptJoy(int whose, int half, int from, int loadThen, int n) {
             int sum = 0;
             int load = loadThen;
             for (int t = from; t < n; t++) {
-                int in = course.stand(person, now.day + t);
+                int in = course.stand(whose, now.day + t);
                 if (in != NONE) {
                     sum += in == half ? course.joyOf(deedOn(t), load) : 0;
                     load = course.loadAfter(deedOn(t), load);
@@ -1461,29 +1566,29 @@ public final class TwoInOne {
             return sum;
         }
 
-        int firstBreak(int person, int n) {
-            int load = now.load[person];
+        int firstBreak(int whose, int n) {
+            int load = now.load[whose];
             for (int t = 0; t < n; t++) {
-                if (course.whoIn(person, now.day + t) != NONE) {
-                    if (isBetterBroken(person, t, load, n)) {
+                if (course.whoIn(whose, now.day + t) != NONE) {
+                    if (isBetterBroken(whose, t, load, n)) {
                         return t;
                     }
-                    course.stand(person, now.day + t);
+                    course.stand(whose, now.day + t);
                     load = course.loadAfter(deedOn(t), load);
                 }
             }
             return NONE;
         }
 
-        private boolean isBetterBroken(int person, int t, int load, int n) {
-            int half = course.whoIn(person, now.day + t);
-            int kept = keptJoy(person, half, t, load, n);
+        private boolean isBetterBroken(int whose, int t, int load, int n) {
+            int half = course.whoIn(whose, now.day + t);
+            int kept = keptJoy(whose, half, t, load, n);
             for (int deed = 0; deed < told.deeds; deed++) {
                 if (deed != deedOn(t)) {
-                    course.stand(person, now.day + t);
+                    course.stand(whose, now.day + t);
                     int joy = course.joyOf(deed, load);
                     int loadThen = course.loadAfter(deed, load);
-                    if (joy + course.greedyJoy(person, half, now.day + t + 1, loadThen, n - 1 - t) > kept) {
+                    if (joy + course.greedyJoy(whose, half, now.day + t + 1, loadThen, n - 1 - t) > kept) {
                         return true;
                     }
                 }
@@ -1491,18 +1596,18 @@ public final class TwoInOne {
             return false;
         }
 
-        int fewestCares(int person, int n) {
+        int fewestCares(int whose, int n) {
             int enough = (1 << (MOST_CARES + 1)) - 1;
-            int load = now.load[person];
+            int load = now.load[whose];
             for (int t = 0; t < n; t++) {
                 int day = now.day + t;
-                if (course.whoIn(person, day) != NONE) {
+                if (course.whoIn(whose, day) != NONE) {
                     for (int cares = 0; cares <= MOST_CARES; cares++) {
-                        if ((enough >> cares & 1) == 1 && course.chosen(person, day, load, cares) != deedOn(t)) {
+                        if ((enough >> cares & 1) == 1 && course.chosen(whose, day, load, cares) != deedOn(t)) {
                             enough &= ~(1 << cares);
                         }
                     }
-                    course.stand(person, day);
+                    course.stand(whose, day);
                     load = course.loadAfter(deedOn(t), load);
                 }
             }
@@ -1512,6 +1617,736 @@ public final class TwoInOne {
                 }
             }
             return NONE;
+        }
+    }
+
+    /** The sums of JOY, wrapped, that can come from a DAY and a LOAD to the end of a game, known where there is room. */
+    private static final class Sums {
+        private static final int UNKNOWN = -1;
+        private static final int NO_ROOM = -1;
+        private static final int MOST_MARKED = 64;
+        /** Of the bits of a sieve so many tell which of its ints one is in, for 32 in each. */
+        private static final int WORD_BITS = 5;
+        /** In the place of a LOAD: an earlier DEED does the same there, so this one is no way of its own. */
+        private static final int SAME = -1;
+
+        private final Told told;
+        private final Game game;
+        /** By DAY, LOAD and DEED: its JOY, and the LOAD then. */
+        private final int[] joys = new int[Game.CELLS * MOST_DEEDS];
+        private final int[] loads = new int[Game.CELLS * MOST_DEEDS];
+        /** What is known, by DAY and LOAD (those behind the last DAY, too): where it starts, how many; they rise. */
+        private final int[] known;
+        private final int[] starts = new int[Game.CELLS + Game.LOADS];
+        private final int[] counts = new int[Game.CELLS + Game.LOADS];
+        private int used = 0;
+        /** Where the sums in a stretch of ints are merged: how far each is behind its start, from LEAST_INT on; they rise. */
+        private final int[] pool;
+        private final int[] merged;
+        private int stretchStart = 0;
+        private int stretchCount = 0;
+        /** The last sum that came before the stretch. */
+        private int sumBefore = 0;
+        /** Bits, one for so many ints of the stretch each: are sums there wanted? Without the sieve all are. */
+        private final int[] sieve;
+        private boolean isSieved = false;
+        private int sieveShift = 0;
+        private final int[] row = new int[MOST_DAYS_ASKED];
+
+        Sums(Told told, Game game, int room) {
+            this.told = told;
+            this.game = game;
+            known = new int[Math.max(1, room)];
+            pool = new int[Math.max(1, room / 4)];
+            merged = new int[Math.max(1, room / 4)];
+            sieve = new int[Math.max(1, room / 2)];
+        }
+
+        void begin() {
+            isSieved = false;
+            for (int t = 0; t < game.length; t++) {
+                game.course.stand(game.person, game.now.day + t);
+                for (int load = 0; load < Game.LOADS; load++) {
+                    counts[Game.cell(t, load)] = UNKNOWN;
+                    if (isReached(t, load)) {
+                        lookUp(t, load);
+                    }
+                }
+            }
+            known[0] = 0;
+            used = 1;
+            for (int load = 0; load < Game.LOADS; load++) {
+                starts[Game.cell(game.length, load)] = 0;
+                counts[Game.cell(game.length, load)] = 1;
+            }
+            for (int t = game.length - 1; t >= 0; t--) {
+                for (int load = 0; load < Game.LOADS; load++) {
+                    if (isReached(t, load) && isKnownBehind(t, load)) {
+                        gather(t, load);
+                    }
+                }
+            }
+        }
+
+        private boolean isReached(int t, int load) {
+            return game.choice[Game.cell(t, load)] != Game.UNSOLVED;
+        }
+
+        /** How many DEEDS can be done there; where nothing is done, that is one way, too. */
+        private int ways(int t, int load) {
+            return game.choice[Game.cell(t, load)] == NONE ? 1 : told.deeds;
+        }
+
+        private static int place(int t, int load, int way) {
+            return Game.cell(t, load) * MOST_DEEDS + Math.max(0, Math.min(MOST_DEEDS - 1, way));
+        }
+
+        private void lookUp(int t, int load) {
+            boolean idle = game.choice[Game.cell(t, load)] == NONE;
+            for (int way = 0; way < ways(t, load); way++) {
+                int joy = idle ? 0 : game.course.joyOf(way, load);
+                int then = idle ? load : game.course.loadAfter(way, load);
+                joys[place(t, load, way)] = joy;
+                loads[place(t, load, way)] = then;
+                for (int other = 0; other < way; other++) {
+                    if (joys[place(t, load, other)] == joy && loads[place(t, load, other)] == then) {
+                        loads[place(t, load, way)] = SAME;
+                    }
+                }
+            }
+        }
+
+        boolean isKnown(int t, int load) {
+            return counts[Game.cell(t, load)] != UNKNOWN;
+        }
+
+        private boolean isKnownBehind(int t, int load) {
+            for (int way = 0; way < ways(t, load); way++) {
+                int then = loads[place(t, load, way)];
+                if (then != SAME && !isKnown(t + 1, then)) {
+                    return false;
+                }
+            }
+            return true;
+        }
+
+        private void gather(int t, int load) {
+            int count = merge(t, load, LEAST_INT, ALL_INTS, 0);
+            if (count != NO_ROOM && used + count <= known.length) {
+                System.arraycopy(pool, 0, known, used, count);
+                starts[Game.cell(t, load)] = used;
+                counts[Game.cell(t, load)] = count;
+                used += count;
+            }
+        }
+
+        /** Those sums from there on that lie in a stretch of ints come into the pool: how many; t bounds the depth. */
+        int merge(int t, int load, int start, long width, int at) {
+            if (t >= game.length || isKnown(t, load)) {
+                return slice(Game.cell(t, load), start, width, at);
+            }
+            int count = 0;
+            for (int way = 0; way < ways(t, load); way++) {
+                int place = place(t, load, way);
+                if (loads[place] != SAME) {
+                    int more = merge(t + 1, loads[place], start - joys[place], width, at + count);
+                    if (more == NO_ROOM) {
+                        return NO_ROOM;
+                    }
+                    count = unite(at, count, more);
+                }
+            }
+            return count;
+        }
+
+        private int slice(int cell, int start, long width, int at) {
+            int count = counts[cell];
+            int first = lastUpTo(known, starts[cell], count, start - 1) + 1;
+            int size = 0;
+            for (int i = 0; i < count; i++) {
+                int index = first + i < count ? first + i : first + i - count;
+                long behind = known[starts[cell] + index] - start & INT_MASK;
+                if (behind >= width) {
+                    return size;
+                }
+                if (!isSieved || isWanted(behind)) {
+                    if (at + size >= pool.length) {
+                        return NO_ROOM;
+                    }
+                    pool[at + size] = (int) behind + LEAST_INT;
+                    size++;
+                }
+            }
+            return size;
+        }
+
+        /** From now on what is marked is wanted in a stretch; all, if too many ints are marked at a time. */
+        void beginSieve(long width, long markedAtOnce) {
+            long bits = (long) sieve.length * INT_BITS;
+            sieveShift = 0;
+            for (int i = 0; i < INT_BITS && (width - 1 >> i >= bits || markedAtOnce >> i > MOST_MARKED); i++) {
+                sieveShift = i + 1;
+            }
+            isSieved = markedAtOnce < ALL_INTS / 4;
+            if (isSieved) {
+                Arrays.fill(sieve, 0);
+            }
+        }
+
+        /** Both are how far behind the stretch's start. */
+        void mark(long from, long to) {
+            int first = (int) (from >> sieveShift);
+            int last = (int) (to >> sieveShift);
+            for (int word = Math.max(0, first >> WORD_BITS); word <= last >> WORD_BITS && word < sieve.length; word++) {
+                int bits = word == first >> WORD_BITS ? -1 << first : -1;
+                sieve[word] |= word == last >> WORD_BITS ? bits & -1 >>> INT_BITS - 1 - last : bits;
+            }
+        }
+
+        private boolean isWanted(long behind) {
+            int bit = (int) (behind >> sieveShift);
+            int word = bit >> WORD_BITS;
+            return word >= 0 && word < sieve.length && (sieve[word] >>> bit & 1) != 0;
+        }
+
+        /** The greatest sum that is not above a number of the stretch: in the stretch, or the one that came before. */
+        int lastInStretch(int number) {
+            int at = lastUpTo(pool, 0, stretchCount, number - stretchStart + LEAST_INT);
+            return at < 0 ? sumBefore : pool[at] - LEAST_INT + stretchStart;
+        }
+
+        /** Two rows in the pool, the second behind the first, become one, with each number once. */
+        private int unite(int at, int count, int more) {
+            if (count == 0 || more == 0) {
+                return count + more;
+            }
+            int i = at;
+            int j = at + count;
+            int size = 0;
+            for (int n = 0; n < count + more && (i < at + count || j < at + count + more); n++) {
+                int number = j >= at + count + more || i < at + count && pool[i] <= pool[j] ? pool[i] : pool[j];
+                i += i < at + count && pool[i] == number ? 1 : 0;
+                j += j < at + count + more && pool[j] == number ? 1 : 0;
+                merged[size] = number;
+                size++;
+            }
+            System.arraycopy(merged, 0, pool, at, size);
+            return size;
+        }
+
+        /** Of rising numbers the place of the last that is not above a number; -1 if all are. */
+        private static int lastUpTo(int[] numbers, int start, int count, int number) {
+            int below = -1;
+            int above = count;
+            while (above - below > 1) {
+                int between = (below + above) / 2;
+                if (numbers[start + between] <= number) {
+                    below = between;
+                } else {
+                    above = between;
+                }
+            }
+            return below;
+        }
+
+        /** What makes a sum the greatest int, together with what comes from there, where that is known. */
+        int bestBehind(int t, int load, int sum) {
+            int cell = Game.cell(t, load);
+            int at = lastUpTo(known, starts[cell], counts[cell], GREATEST_INT - sum);
+            return known[starts[cell] + (at < 0 ? counts[cell] - 1 : at)];
+        }
+
+        /** JOY of the best row, which is told; from the first DAY on all must be known. */
+        int tellBest(int load, Row lying) {
+            int best = bestBehind(0, load, 0);
+            follow(0, load, best);
+            tellRow(load, lying);
+            return best;
+        }
+
+        /** The row goes on from there as the first by which such a sum comes, which is known to come. */
+        void follow(int from, int fromLoad, int sum) {
+            int load = fromLoad;
+            int rest = sum;
+            for (int t = from; t < game.length; t++) {
+                int way = 0;
+                while (way + 1 < ways(t, load) && !canCome(t, load, way, rest)) {
+                    way++;
+                }
+                row[t] = way;
+                rest -= joys[place(t, load, way)];
+                load = loads[place(t, load, way)];
+            }
+        }
+
+        private boolean canCome(int t, int load, int way, int sum) {
+            int place = place(t, load, way);
+            if (loads[place] == SAME) {
+                return false;
+            }
+            int rest = sum - joys[place];
+            int cell = Game.cell(t + 1, loads[place]);
+            int at = lastUpTo(known, starts[cell], counts[cell], rest);
+            return at >= 0 && known[starts[cell] + at] == rest;
+        }
+
+        void tellRow(int from, Row lying) {
+            int load = from;
+            for (int t = 0; t < game.length; t++) {
+                lying.add(game.choice[Game.cell(t, load)] == NONE ? NONE : row[t]);
+                load = loads[place(t, load, row[t])];
+            }
+        }
+    }
+
+    /**
+     * TOGETHER where sums wrap and are too many to be known. What is most for the last DAYS need not be in what is most for all
+     * then, so rows are met in their middle: the sums of the first DAYS (the front) with those of the last.
+     */
+    private static final class Search {
+        private static final int MOST_IN_FRONT = 1 << 17;
+        private static final long MOST_WEIGHT = 1L << 40;
+        private static final long MOST_PATHS = 1L << 30;
+        private static final int TRIED_DAYS = 3;
+        /** One of a front: a LOAD, a sum, and the first row of DEEDS that leads there, so many bits for each DAY. */
+        private static final int DEED_BITS = 3;
+        private static final int FRONT_DAYS = 8;
+        private static final int LEAD_BITS = DEED_BITS * FRONT_DAYS;
+        private static final int LEAD_MASK = (1 << LEAD_BITS) - 1;
+        private static final int LOAD_SHIFT = LEAD_BITS + INT_BITS;
+
+        private final Game game;
+        private final Sums sums;
+        /** They rise: so those of a LOAD are together, and of those with one sum that of the first row is the first. */
+        private long[] front = new long[MOST_IN_FRONT];
+        private long[] spare = new long[MOST_IN_FRONT];
+        private int frontCount;
+        private int startDay;
+        private int frontDay;
+        /** By LOAD: where those of the front begin. */
+        private final int[] blocks = new int[Game.LOADS + 1];
+        /** By DAY and LOAD: how many sums there are to merge. */
+        private final long[] weights = new long[Game.CELLS + Game.LOADS];
+        /** By LOAD: how many of the front come to it by the middle DAY, each path counted. */
+        private long[] flow = new long[Game.LOADS];
+        private long[] flowThen = new long[Game.LOADS];
+        private int middleDay;
+        /** By DAY and LOAD: does a path lead from there to that LOAD of the middle DAY which is looked at? */
+        private final boolean[] leads = new boolean[Game.CELLS + Game.LOADS];
+        /** How far below the greatest int the sums may be that are looked for. */
+        private long slack;
+        /** Is it only marked which sums are wanted? */
+        private boolean isMarking;
+        /** JOY of a row that is known to be there, its first DEEDS, and to which DAY these lead; NONE: these are not known yet. */
+        private int best;
+        private int bestLead;
+        private int bestDay;
+        /** No sum is above it. */
+        private int limit;
+
+        Search(Told told, Game game) {
+            this.game = game;
+            sums = new Sums(told, game, MANY_SUMS);
+        }
+
+        /** JOY of the best row, which is told. */
+        int tellBest(int firstLoad, Row lying) {
+            sums.begin();
+            weigh();
+            findLimit();
+            Arrays.fill(sums.row, 0);
+            best = LEAST_INT;
+            // Where rows are very many, those that begin with the first DEED for long meet the limit, too: they come first.
+            int t = (game.length - 1) / TRIED_DAYS * TRIED_DAYS;
+            settleFrom(t, loadBehind(t, firstLoad), sumBehind(t, firstLoad));
+            while (t > 0 && best != limit) {
+                t = Math.max(0, t - TRIED_DAYS);
+                settleFrom(t, loadBehind(t, firstLoad), sumBehind(t, firstLoad));
+            }
+            limit = best;
+            for (int i = 0; i < game.length && bestDay > t; i++) {
+                for (int lead = bestLead << INT_BITS - LEAD_BITS; t < bestDay && t < game.length; lead <<= DEED_BITS) {
+                    sums.row[t] = lead >>> INT_BITS - DEED_BITS;
+                    t++;
+                }
+                settleFrom(t, loadBehind(t, firstLoad), sumBehind(t, firstLoad));
+            }
+            int load = loadBehind(t, firstLoad);
+            if (sums.isKnown(t, load)) {
+                sums.follow(t, load, best - sumBehind(t, firstLoad));
+            } else {
+                followMost(t, load);
+            }
+            sums.tellRow(firstLoad, lying);
+            return best;
+        }
+
+        /** The LOAD behind so many DAYS of the row. */
+        private int loadBehind(int days, int firstLoad) {
+            int load = firstLoad;
+            for (int t = 0; t < days; t++) {
+                load = sums.loads[Sums.place(t, load, sums.row[t])];
+            }
+            return load;
+        }
+
+        private int sumBehind(int days, int firstLoad) {
+            int load = firstLoad;
+            int sum = 0;
+            for (int t = 0; t < days; t++) {
+                sum += sums.joys[Sums.place(t, load, sums.row[t])];
+                load = sums.loads[Sums.place(t, load, sums.row[t])];
+            }
+            return sum;
+        }
+
+        private void followMost(int from, int fromLoad) {
+            int load = fromLoad;
+            for (int t = from; t < game.length; t++) {
+                sums.row[t] = Math.max(0, game.choice[Game.cell(t, load)]);
+                load = sums.loads[Sums.place(t, load, sums.row[t])];
+            }
+        }
+
+        private void weigh() {
+            for (int t = game.length; t >= 0; t--) {
+                for (int load = 0; load < Game.LOADS; load++) {
+                    long weight = 0;
+                    if (sums.isKnown(t, load)) {
+                        weight = sums.counts[Game.cell(t, load)];
+                    } else if (sums.isReached(t, load)) {
+                        for (int way = 0; way < sums.ways(t, load); way++) {
+                            int then = sums.loads[Sums.place(t, load, way)];
+                            weight += then == Sums.SAME ? 0 : weights[Game.cell(t + 1, then)];
+                        }
+                    }
+                    weights[Game.cell(t, load)] = Math.min(MOST_WEIGHT, weight);
+                }
+            }
+        }
+
+        /** Low bits that are alike in the JOY of all DEEDS on each DAY are settled in the sum, too. */
+        private void findLimit() {
+            int sum = 0;
+            int unlike = 0;
+            for (int t = 0; t < game.length; t++) {
+                boolean isFirst = true;
+                int first = 0;
+                for (int load = 0; load < Game.LOADS; load++) {
+                    for (int way = 0; sums.isReached(t, load) && way < sums.ways(t, load); way++) {
+                        int joy = sums.joys[Sums.place(t, load, way)];
+                        first = isFirst ? joy : first;
+                        isFirst = false;
+                        unlike |= joy - first;
+                    }
+                }
+                sum += first;
+            }
+            int settled = unlike == 0 ? -1 : (unlike & -unlike) - 1;
+            limit = GREATEST_INT - (GREATEST_INT - sum & settled);
+        }
+
+        /** Finds the best of the rows that go on from there; of like ones the DEEDS that the first begins with. */
+        private void settleFrom(int t, int load, int sum) {
+            bestDay = NONE;
+            startDay = t;
+            frontDay = t;
+            if (isSettled(t, load, sum, 0)) {
+                return;
+            }
+            front[0] = oneOf(load, sum, 0);
+            frontCount = 1;
+            for (int i = 0; i < FRONT_DAYS && frontCount > 0 && frontCount * MOST_DEEDS <= MOST_IN_FRONT; i++) {
+                advanceFront();
+            }
+            if (frontCount == 0) {
+                return;
+            }
+            findBlocks();
+            chooseMiddle();
+            for (int middleLoad = 0; middleLoad < Game.LOADS; middleLoad++) {
+                if (flow[middleLoad] > 0) {
+                    dropLater();
+                    sweepTo(middleLoad);
+                }
+            }
+        }
+
+        /** True if the best that goes on from there is known at once; then it is kept, if it is better. */
+        private boolean isSettled(int t, int load, int sum, int lead) {
+            if (sums.isKnown(t, load)) {
+                keep(sum + sums.bestBehind(t, load, sum), lead, t);
+                return true;
+            }
+            if (!game.canWrap(t, load, sum)) {
+                keep((int) (sum + game.mostAt(t, load)), lead, t);
+                return true;
+            }
+            return false;
+        }
+
+        private void keep(int all, int lead, int day) {
+            if (all > best || all == best && (bestDay == NONE || lead < bestLead)) {
+                best = all;
+                bestLead = lead;
+                bestDay = day;
+            }
+        }
+
+        private static long oneOf(int load, int sum, int lead) {
+            return (long) load << LOAD_SHIFT | ((sum ^ LEAST_INT) & INT_MASK) << LEAD_BITS | lead;
+        }
+
+        private static int loadOf(long one) {
+            return (int) (one >>> LOAD_SHIFT);
+        }
+
+        private static int sumOf(long one) {
+            return (int) (one >>> LEAD_BITS) ^ LEAST_INT;
+        }
+
+        private static int leadOf(long one) {
+            return (int) one & LEAD_MASK;
+        }
+
+        /** The front goes on by one DAY; what is settled there leaves it. */
+        private void advanceFront() {
+            int count = 0;
+            int shift = DEED_BITS * (FRONT_DAYS - 1 - (frontDay - startDay));
+            for (int i = 0; i < frontCount; i++) {
+                int load = loadOf(front[i]);
+                for (int way = 0; way < sums.ways(frontDay, load); way++) {
+                    int place = Sums.place(frontDay, load, way);
+                    int sum = sumOf(front[i]) + sums.joys[place];
+                    int lead = leadOf(front[i]) | way << shift;
+                    if (sums.loads[place] != Sums.SAME && !isSettled(frontDay + 1, sums.loads[place], sum, lead)) {
+                        spare[count] = oneOf(sums.loads[place], sum, lead);
+                        count++;
+                    }
+                }
+            }
+            frontDay++;
+            frontCount = count;
+            swapFront();
+            sortFront();
+            dropTwins();
+        }
+
+        private void swapFront() {
+            long[] other = front;
+            front = spare;
+            spare = other;
+        }
+
+        private void sortFront() {
+            for (int run = 1; run < frontCount; run *= 2) {
+                for (int from = 0; from < frontCount; from += 2 * run) {
+                    mergeRuns(from, Math.min(from + run, frontCount), Math.min(from + 2 * run, frontCount));
+                }
+                swapFront();
+            }
+        }
+
+        private void mergeRuns(int from, int middle, int to) {
+            int i = from;
+            int j = middle;
+            for (int at = from; at < to; at++) {
+                if (j >= to || i < middle && front[i] <= front[j]) {
+                    spare[at] = front[i];
+                    i++;
+                } else {
+                    spare[at] = front[j];
+                    j++;
+                }
+            }
+        }
+
+        private void dropTwins() {
+            int count = 0;
+            for (int i = 0; i < frontCount; i++) {
+                if (count == 0 || front[i] >>> LEAD_BITS != front[count - 1] >>> LEAD_BITS) {
+                    front[count] = front[i];
+                    count++;
+                }
+            }
+            frontCount = count;
+        }
+
+        /** Once the limit is met, only an earlier row can be better. */
+        private void dropLater() {
+            if (bestDay == NONE || best != limit) {
+                return;
+            }
+            int count = 0;
+            for (int i = 0; i < frontCount; i++) {
+                if (leadOf(front[i]) < bestLead) {
+                    front[count] = front[i];
+                    count++;
+                }
+            }
+            frontCount = count;
+            findBlocks();
+        }
+
+        private void findBlocks() {
+            int i = 0;
+            for (int load = 0; load <= Game.LOADS; load++) {
+                while (i < frontCount && loadOf(front[i]) < load) {
+                    i++;
+                }
+                blocks[load] = i;
+            }
+        }
+
+        /** Where what there is to do for the front, for its paths and for the sums to merge is least together. */
+        private void chooseMiddle() {
+            long paths = Math.min(frontCount, Game.LOADS);
+            long fewest = 0;
+            for (int day = frontDay; day <= game.length; day++) {
+                flowTo(day);
+                long cost = 0;
+                for (int load = 0; load < Game.LOADS; load++) {
+                    long weight = weights[Game.cell(day, load)];
+                    cost += flow[load] > 0 ? 3 * flow[load] + weight + paths * (1 + weight * 4 / sums.pool.length) / 16 : 0;
+                }
+                if (day == frontDay || cost < fewest) {
+                    fewest = cost;
+                    middleDay = day;
+                }
+                paths = Math.min(MOST_PATHS, paths * MOST_DEEDS);
+            }
+            flowTo(middleDay);
+        }
+
+        private void flowTo(int day) {
+            for (int load = 0; load < Game.LOADS; load++) {
+                flow[load] = blocks[load + 1] - blocks[load];
+            }
+            for (int t = frontDay; t < day; t++) {
+                Arrays.fill(flowThen, 0);
+                for (int load = 0; load < Game.LOADS; load++) {
+                    for (int way = 0; flow[load] > 0 && way < sums.ways(t, load); way++) {
+                        int then = sums.loads[Sums.place(t, load, way)];
+                        if (then != Sums.SAME) {
+                            flowThen[then] += flow[load];
+                        }
+                    }
+                }
+                long[] other = flow;
+                flow = flowThen;
+                flowThen = other;
+            }
+        }
+
+        /** Goes round all ints, stretch by stretch, from a sum on that can come from there. */
+        private void sweepTo(int middleLoad) {
+            markPaths(middleLoad);
+            slack = (long) GREATEST_INT - best;
+            int start = (int) game.mostAt(middleDay, middleLoad);
+            long longest = longestStep(middleLoad);
+            long step = longest;
+            long done = 0;
+            sums.sumBefore = start;
+            for (long i = 0; i < ALL_INTS && done < ALL_INTS && frontCount > 0; i++) {
+                long width = Math.min(step, ALL_INTS - done);
+                sums.stretchStart = start + (int) done;
+                sums.beginSieve(width, slack);
+                isMarking = true;
+                for (int load = 0; load < Game.LOADS && sums.isSieved; load++) {
+                    walk(frontDay, load, 0, load, width);
+                }
+                sums.stretchCount = sums.merge(middleDay, middleLoad, sums.stretchStart, width, 0);
+                if (sums.stretchCount == Sums.NO_ROOM) {
+                    step = Math.max(1, step / 2);
+                } else {
+                    isMarking = false;
+                    for (int load = 0; load < Game.LOADS; load++) {
+                        walk(frontDay, load, 0, load, width);
+                    }
+                    sums.sumBefore = sums.lastInStretch(sums.stretchStart + (int) (width - 1));
+                    done += width;
+                    step = sums.stretchCount < sums.pool.length / 8 ? Math.min(longest, step * 2) : step;
+                }
+            }
+        }
+
+        /** With a sieve the marks should be few among its bits; without it the sums should have room. */
+        private long longestStep(int middleLoad) {
+            sums.beginSieve(ALL_INTS, slack);
+            long parts = sums.isSieved ? flow[middleLoad] / 4 / sums.sieve.length
+                : weights[Game.cell(middleDay, middleLoad)] * 4 / sums.pool.length;
+            return Math.max(1, ALL_INTS / (1 + parts));
+        }
+
+        private void markPaths(int middleLoad) {
+            for (int load = 0; load < Game.LOADS; load++) {
+                leads[Game.cell(middleDay, load)] = load == middleLoad;
+            }
+            for (int t = middleDay - 1; t >= frontDay; t--) {
+                for (int load = 0; load < Game.LOADS; load++) {
+                    boolean any = false;
+                    for (int way = 0; sums.isReached(t, load) && way < sums.ways(t, load); way++) {
+                        int then = sums.loads[Sums.place(t, load, way)];
+                        any = any || then != Sums.SAME && leads[Game.cell(t + 1, then)];
+                    }
+                    leads[Game.cell(t, load)] = any;
+                }
+            }
+        }
+
+        /** All paths to the middle for those of the front with one LOAD; t bounds the depth. */
+        private void walk(int t, int load, int joy, int frontLoad, long width) {
+            if (!leads[Game.cell(t, load)] || blocks[frontLoad] == blocks[frontLoad + 1]) {
+                return;
+            }
+            if (t >= middleDay) {
+                meet(frontLoad, joy, width);
+                return;
+            }
+            for (int way = 0; way < sums.ways(t, load); way++) {
+                int place = Sums.place(t, load, way);
+                if (sums.loads[place] != Sums.SAME) {
+                    walk(t + 1, sums.loads[place], joy + sums.joys[place], frontLoad, width);
+                }
+            }
+        }
+
+        /** Those of the front with one LOAD and some more JOY which need a sum of the stretch to be the greatest int. */
+        private void meet(int load, int joy, long width) {
+            int count = blocks[load + 1] - blocks[load];
+            int at = lastInBlock(load, GREATEST_INT - joy - sums.stretchStart);
+            // A sum at the stretch's end may be wanted by one that is behind it.
+            long range = isMarking ? width + slack : width;
+            for (int i = 0; i < count; i++) {
+                at = at < 0 ? count - 1 : at;
+                long one = front[blocks[load] + at];
+                int sum = sumOf(one) + joy;
+                long behind = GREATEST_INT - sum - sums.stretchStart & INT_MASK;
+                if (behind >= range) {
+                    return;
+                }
+                if (isMarking) {
+                    sums.mark(Math.max(0, behind - slack), Math.min(width - 1, behind));
+                } else {
+                    keep(sum + sums.lastInStretch(GREATEST_INT - sum), leadOf(one), frontDay);
+                }
+                at--;
+            }
+        }
+
+        /** Of those of the front with one LOAD the place of the last whose sum is not above a number; -1 if all are. */
+        private int lastInBlock(int load, int number) {
+            int below = -1;
+            int above = blocks[load + 1] - blocks[load];
+            while (above - below > 1) {
+                int between = (below + above) / 2;
+                if (sumOf(front[blocks[load] + between]) <= number) {
+                    below = between;
+                } else {
+                    above = between;
+                }
+            }
+            return below;
         }
     }
 
@@ -1615,66 +2450,6 @@ public final class TwoInOne {
             for (int half = 0; half < told.halves && half < pairs.length; half++) {
                 row.add(pairs[half] == half || pairs[half] == OPEN ? NONE : pairs[half]);
             }
-        }
-    }
-
-    /** ELECTIONS by who is IN, and what most favour. */
-    private static final class Votes {
-        private final Told told;
-        private final State now;
-        private final Course course;
-        private final int[] count = new int[MOST_FAVOURED + 1];
-
-        Votes(Told told, State now, Course course) {
-            this.told = told;
-            this.now = now;
-            this.course = course;
-        }
-
-        int winnerOn(int day) {
-            Arrays.fill(count, 0);
-            for (int person = 0; person < told.persons; person++) {
-                addVote(course.whoIn(person, day));
-            }
-            return winner();
-        }
-
-        int mostFavoured() {
-            Arrays.fill(count, 0);
-            for (int half = 0; half < told.halves; half++) {
-                addVote(now.alive[half] == 1 ? half : NONE);
-            }
-            return winner();
-        }
-
-        private void addVote(int half) {
-            if (told.hasHalf(half)) {
-                count[Math.min(MOST_FAVOURED, told.favoured(half))]++;
-            }
-        }
-
-        private int winner() {
-            int best = NONE;
-            int most = 0;
-            for (int i = 0; i <= MOST_FAVOURED; i++) {
-                if (count[i] > most) {
-                    best = i;
-                    most = count[i];
-                }
-            }
-            return best;
-        }
-
-        int daysLost(int n) {
-            int wanted = mostFavoured();
-            int lost = 0;
-            for (int i = 0; i < n; i++) {
-                int winner = winnerOn(now.day + i);
-                if (winner == NONE || winner != wanted) {
-                    lost++;
-                }
-            }
-            return lost;
         }
     }
 

@@ -76,9 +76,19 @@ final class Check {
         byte[] bytes = text.getBytes(StandardCharsets.ISO_8859_1);
         int length = x.about(10) + bytes.length;
         for (int i = 0; i < bytes.length; i += 20) {
-            x.feed(word(bytes, i), word(bytes, i + 4), word(bytes, i + 8), word(bytes, i + 12), word(bytes, i + 16));
+            int[] w = words(bytes, i);
+            x.feed(w[0], w[1], w[2], w[3], w[4]);
         }
         return x.end(length);
+    }
+
+    /** Twenty bytes as five numbers; blanks behind the end. */
+    static int[] words(byte[] bytes, int from) {
+        int[] words = new int[5];
+        for (int i = 0; i < words.length; i++) {
+            words[i] = word(bytes, from + 4 * i);
+        }
+        return words;
     }
 
     private static int word(byte[] bytes, int from) {

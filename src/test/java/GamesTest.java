@@ -8,6 +8,9 @@ public final class GamesTest {
     public static void main(String[] args) {
         played();
         together();
+        togetherOfTheIssue();
+        togetherWraps();
+        togetherOfVeryManyRows();
         nobodyPlays();
         withoutDeeds();
         wrongGames();
@@ -55,6 +58,75 @@ public final class GamesTest {
         CHECK.lying("together(0, 2)", like, 1, 0);
         CHECK.due("together(0, 3)", like.together(0, 3), 5);
         CHECK.lying("the first row", like, 0, 1, 0);
+    }
+
+    /** The run of calls that issue 5 tells: the row of the greatest sum does not end with what is most on the last DAY. */
+    private static void togetherOfTheIssue() {
+        TwoInOne x = new TwoInOne();
+        CHECK.due("feed", x.feed(1751215206, 544219251, 1802071148, 540031848, 1634493984), 20);
+        CHECK.due("feed", x.feed(1897952107, 1768713248, 809201765, 1920167790, 544874607), 40);
+        CHECK.due("feed", x.feed(1713401888, 1897952373, 1919819824, 996435301, 1679843616), 60);
+        CHECK.due("feed", x.feed(1785690400, 825372714, 825373751, 707866931, 707867191), 80);
+        CHECK.due("feed", x.feed(707290209, 2034053161, 724643882, 677667193, 1026631968), 100);
+        CHECK.due("feed", x.feed(1819238756, 540031844, 1701143584, 1646291567, 2032153898), 120);
+        CHECK.due("feed", x.feed(677667193, 1026631968, 1819238756, 540031776, 538976288), 140);
+        CHECK.due("end(135)", x.end(135), 135);
+        CHECK.due("register()", x.register(), 2);
+        CHECK.due("together(0, 2)", x.together(0, 2), 2147483645);
+        CHECK.lying("together(0, 2)", x, 0, 1);
+        x.next(0);
+        x.next(1);
+        CHECK.due("keeps(0, 0, 2)", x.keeps(0, 0, 2), 2147483645);
+    }
+
+    private static void togetherWraps() {
+        String two = "half a skill 3;half b skill 1;person p of a b turn 0 1;";
+        // twice 2000000000 is -294967296
+        TwoInOne above = Check.of(two + "deed d joy 2000*1000*1000 load 0;deed e joy 0 load 0;deed f joy 0 load 5;");
+        CHECK.due("once of two", above.together(0, 2), 2000000000);
+        CHECK.lying("once of two", above, 0, 1);
+        CHECK.due("three times wrap to more", above.together(0, 3), 2000000000);
+        CHECK.lying("of like ones the first", above, 0, 1, 1);
+        CHECK.due("nothing is done", above.about(3), 0);
+        TwoInOne below = Check.of(two + "deed d joy 1 load 0;deed e joy 0 - 2000*1000*1000 load 0;");
+        CHECK.due("once is no more", below.together(0, 1), 1);
+        CHECK.due("twice wraps from below", below.together(0, 2), 294967296);
+        CHECK.lying("twice wraps from below", below, 1, 1);
+        CHECK.due("and one DAY more", below.together(0, 3), 294967297);
+        CHECK.lying("of like ones the first", below, 0, 1, 1);
+        // twice 2^31 is 0, so of twenty DAYS only the 7 is left
+        TwoInOne half = Check.of(two + "deed d joy 8192*8192*32 load 0;deed e joy 8192*8192*32 + 7*(day = 19) load 0;");
+        CHECK.due("together(0, 20)", half.together(0, 20), 7);
+        CHECK.due("the last is e", half.lies(19), 1);
+        CHECK.due("all others are d", half.lies(0) + half.lies(9) + half.lies(18), 0);
+        TwoInOne dead = Check.of(two + "deed d joy 2000*1000*1000 load 0;deed e joy day load 9;");
+        dead.die(1);
+        CHECK.due("on DAYS of NOBODY nothing is done", dead.together(0, 4), 2000000002);
+        CHECK.lying("on DAYS of NOBODY nothing is done", dead, 0, -1, 1, -1);
+        dead.die(1);
+        dead.days(1);
+        CHECK.due("from the coming DAY on, with its LOAD", dead.together(0, 2), 2000000002);
+        CHECK.lying("from the coming DAY on, with its LOAD", dead, 0, 1);
+        CHECK.due("wrong together", dead.together(0, 21), GAP);
+        CHECK.lying("wrong together", dead);
+    }
+
+    /** Far too many rows to try all of them. */
+    private static void togetherOfVeryManyRows() {
+        TwoInOne x = Check.of("half a skill 3;half b skill 1;half c skill 5;person p of a b c turn 0 1 2 2 0;"
+            + "deed d joy (day+7)*(day+3)*(load+5)*9973*7919*31 load load * 3 + 1;deed e joy (load+1)*(day+9)*(day+11)*9001*8009 load load - 13;"
+            + "deed f joy skill*9999*9999*(day+1)*(load+3) load load + 1;deed g joy day % 5 load 99 - load;"
+            + "deed h joy (load+day*100)*(load+day)*7001*13 load load + skill;deed i joy 0 load load * load % 89;");
+        CHECK.due("the greatest int is met", x.together(0, 20), Integer.MAX_VALUE);
+        int[] row = new int[20];
+        for (int t = 0; t < 20; t++) {
+            row[t] = x.lies(t);
+        }
+        int done = 0;
+        for (int t = 0; t < 20; t++) {
+            done += x.decree(0, row[t]);
+        }
+        CHECK.due("the row is told", done, Integer.MAX_VALUE);
     }
 
     private static void nobodyPlays() {

@@ -727,7 +727,7 @@ final class Model {
     }
 
     /** What is done from DAY t on and what comes of it: the row, then JOY by HALVES. */
-    private int[][] game(int p, int t, int n, int load, boolean together, Map<List<Integer>, int[][]> known) {
+    private int[][] game(int p, int t, int n, int load, Map<List<Integer>, int[][]> known) {
         if (t == n) {
             return new int[][] {new int[0], new int[told.halves.size()]};
         }
@@ -739,15 +739,14 @@ final class Model {
         int h = isIn(p, day);
         int[][] best = null;
         if (h == NONE || told.deeds.isEmpty()) {
-            int[][] rest = game(p, t + 1, n, load, together, known);
+            int[][] rest = game(p, t + 1, n, load, known);
             best = new int[][] {before(NONE, rest[0]), rest[1]};
         }
         for (int d = 0; d < told.deeds.size() && h != NONE; d++) {
-            int[][] rest = game(p, t + 1, n, loadAt(p, d, day, load), together, known);
+            int[][] rest = game(p, t + 1, n, loadAt(p, d, day, load), known);
             int[] joys = rest[1].clone();
             joys[h] += joyAt(p, d, day, load);
-            int worth = together ? Arrays.stream(joys).sum() : joys[h];
-            if (best == null || worth > (together ? Arrays.stream(best[1]).sum() : best[1][h])) {
+            if (best == null || joys[h] > best[1][h]) {
                 best = new int[][] {before(d, rest[0]), joys};
             }
         }
@@ -774,9 +773,59 @@ final class Model {
         if (!asked(p, n) || !isHalf(h) || told.halves.get(h).person != p) {
             return GAP;
         }
-        int[][] game = game(p, 0, n, now.loads.get(p), false, new HashMap<>());
+        int[][] game = game(p, 0, n, now.loads.get(p), new HashMap<>());
         lay(game[0]);
         return game[1][h];
+    }
+
+    private static final class Shared {
+        int[] row = new int[0];
+        long most = 0;
+        long least = 0;
+    }
+
+    /** TOGETHER from DAY t on, if sums did not wrap. */
+    private Shared shared(int p, int t, int n, int load, Map<List<Integer>, Shared> known) {
+        if (t == n) {
+            return new Shared();
+        }
+        Shared solved = known.get(List.of(t, load));
+        if (solved != null) {
+            return solved;
+        }
+        int day = now.day + t;
+        Shared best = new Shared();
+        if (isIn(p, day) == NONE || told.deeds.isEmpty()) {
+            Shared rest = shared(p, t + 1, n, load, known);
+            best.row = before(NONE, rest.row);
+            best.most = rest.most;
+            best.least = rest.least;
+        } else {
+            for (int d = 0; d < told.deeds.size(); d++) {
+                Shared rest = shared(p, t + 1, n, loadAt(p, d, day, load), known);
+                long joy = joyAt(p, d, day, load);
+                if (d == 0 || joy + rest.most > best.most) {
+                    best.row = before(d, rest.row);
+                    best.most = joy + rest.most;
+                }
+                best.least = d == 0 ? joy + rest.least : Math.min(best.least, joy + rest.least);
+            }
+        }
+        known.put(List.of(t, load), best);
+        return best;
+    }
+
+    private boolean isFew(int n) {
+        return Math.pow(told.deeds.size(), n) <= 3000;
+    }
+
+    /** Can TOGETHER be told here? Where sums may wrap, only if there are few rows. */
+    boolean canTellTogether(int p, int n) {
+        if (!asked(p, n) || isFew(n)) {
+            return true;
+        }
+        Shared all = shared(p, 0, n, now.loads.get(p), new HashMap<>());
+        return all.most <= Integer.MAX_VALUE && all.least >= Integer.MIN_VALUE;
     }
 
     int together(int p, int n) {
@@ -784,39 +833,48 @@ final class Model {
         if (!asked(p, n)) {
             return GAP;
         }
-        int[][] game = game(p, 0, n, now.loads.get(p), true, new HashMap<>());
-        lay(game[0]);
-        return Arrays.stream(game[1]).sum();
+        if (isFew(n)) {
+            Tried tried = togetherByTrying(p, n);
+            lay(tried.best);
+            return tried.most;
+        }
+        Shared all = shared(p, 0, n, now.loads.get(p), new HashMap<>());
+        lay(all.row);
+        return (int) all.most;
     }
 
-    /** All rows of DEEDS tried one by one, for few DAYS; null if there are too many. */
-    int[] togetherByTrying(int p, int n) {
-        int deeds = told.deeds.size();
-        if (!asked(p, n) || deeds == 0 || Math.pow(deeds, n) > 3000) {
-            return null;
-        }
+    /** TOGETHER by its own words: all rows of DEEDS are tried, in their order; of like ones the first stays. */
+    static final class Tried {
+        int[] row;
         int[] best = null;
-        for (int code = 0; code < Math.round(Math.pow(deeds, n)); code++) {
-            int[] row = new int[n + 1];
-            int rest = code;
-            for (int t = n - 1; t >= 0; t--) {
-                row[t] = rest % deeds;
-                rest /= deeds;
+        int most = 0;
+    }
+
+    Tried togetherByTrying(int p, int n) {
+        Tried tried = new Tried();
+        tried.row = new int[n];
+        tryRows(p, 0, now.loads.get(p), 0, tried);
+        return tried;
+    }
+
+    private void tryRows(int p, int t, int load, int sum, Tried tried) {
+        if (t == tried.row.length) {
+            if (tried.best == null || sum > tried.most) {
+                tried.best = tried.row.clone();
+                tried.most = sum;
             }
-            int load = now.loads.get(p);
-            for (int t = 0; t < n; t++) {
-                if (isIn(p, now.day + t) == NONE) {
-                    row[t] = NONE;
-                } else {
-                    row[n] += joyAt(p, row[t], now.day + t, load);
-                    load = loadAt(p, row[t], now.day + t, load);
-                }
-            }
-            if (best == null || row[n] > best[n]) {
-                best = row;
-            }
+            return;
         }
-        return best;
+        int day = now.day + t;
+        if (isIn(p, day) == NONE || told.deeds.isEmpty()) {
+            tried.row[t] = NONE;
+            tryRows(p, t + 1, load, sum, tried);
+            return;
+        }
+        for (int d = 0; d < told.deeds.size(); d++) {
+            tried.row[t] = d;
+            tryRows(p, t + 1, loadAt(p, d, day, load), sum + joyAt(p, d, day, load), tried);
+        }
     }
 
     // ---- bargains

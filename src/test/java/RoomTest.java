@@ -23,7 +23,24 @@ public final class RoomTest {
         run(x);
         long taken = allocated() - before;
         CHECK.due("512 calls take " + taken + " bytes", taken < 100000, true);
+        wraps();
         CHECK.finish();
+    }
+
+    /** Where sums wrap there is more to keep: it is made once. Room for 7.3 million numbers is there. */
+    private static void wraps() {
+        TwoInOne x = Check.of(TEXT.replace("load % 7 load", "load*day*9973*9901 load").replace("day % 5 load", "day*day*7919 load"));
+        long before = allocated();
+        x.together(0, 4);
+        long few = allocated() - before;
+        CHECK.due("sums of few rows take " + few + " bytes", few < 400000, true);
+        x.together(0, 20);
+        long many = allocated() - before;
+        CHECK.due("sums of many rows take " + many + " bytes", many > few && many < 5000000, true);
+        for (int i = 0; i < 20; i++) {
+            x.together(i % 4, 10 + i % 5);
+        }
+        CHECK.due("no more is taken", allocated() - before - many < 100000, true);
     }
 
     private static long allocated() {

@@ -1,0 +1,169 @@
+import java.io.IOException;
+import java.lang.reflect.Method;
+import java.net.URL;
+import java.net.URLClassLoader;
+import java.nio.file.Files;
+import java.nio.file.Path;
+import java.util.Comparator;
+import java.util.Random;
+import java.util.stream.Stream;
+import javax.tools.ToolProvider;
+
+/**
+ * Promise 22 where sums wrap, against all rows tried one by one. Ways that the program goes only where sums are very many are
+ * gone here with few of them: by programs that are the same but for less room.
+ */
+public final class WrapsTest {
+    private static final Check CHECK = new Check("WrapsTest");
+    private static final String PROGRAM = "src/main/java/TwoInOne.java";
+    private static final String[] FACTORS = {"", "*7919", "*9973*9901", "*9999*9999", "*9999*9999*9999", "*4096*4", "*4096*16",
+        "*1000*1000", "*1234*987*13", "*5003*4999*7", "*8192*2*8192*8", "*100*1000*1000", "*119*1000*1000"};
+    private static final String[] WORDS = {"load", "day", "skill", "again", "load", "day"};
+    private static final String[] JOINTS = {"+", "-", "*", "+", "*", "%"};
+
+    public static void main(String[] args) throws ReflectiveOperationException, IOException {
+        int runs = args.length > 0 ? Integer.parseInt(args[0]) : 400;
+        Path folder = Files.createTempDirectory("wraps");
+        try {
+            compare("as it is", TwoInOne.class, runs / 4, 300000);
+            compare("next to no room", tight(folder.resolve("a"), 3, 6, "64", 8), runs, 20000);
+            compare("a short front", tight(folder.resolve("b"), 3, 8, "16", 2), runs, 20000);
+            compare("little room", tight(folder.resolve("c"), 5, 10, "1000", 5), runs, 20000);
+            compare("a large front", tight(folder.resolve("d"), 3, 6, "1 << 14", 8), runs, 20000);
+        } finally {
+            remove(folder);
+        }
+        CHECK.finish();
+    }
+
+    /** The program with other numbers for its room. */
+    private static Class<?> tight(Path folder, int fewBits, int manyBits, String front, int days)
+            throws ReflectiveOperationException, IOException {
+        String text = Files.readString(Path.of(PROGRAM));
+        text = put(text, "int FEW_SUMS = 1 << 15;", "int FEW_SUMS = 1 << " + fewBits + ";");
+        text = put(text, "int MANY_SUMS = 1 << 18;", "int MANY_SUMS = 1 << " + manyBits + ";");
+        text = put(text, "int MOST_IN_FRONT = 1 << 17;", "int MOST_IN_FRONT = " + front + ";");
+        text = put(text, "int FRONT_DAYS = 8;", "int FRONT_DAYS = " + days + ";");
+        Files.createDirectories(folder);
+        Path file = folder.resolve("TwoInOne.java");
+        Files.writeString(file, text);
+        int wrong = ToolProvider.getSystemJavaCompiler().run(null, null, null, "-d", folder.toString(), file.toString());
+        CHECK.due("errors of the compiler", wrong, 0);
+        try (URLClassLoader loader = new URLClassLoader(new URL[] {folder.toUri().toURL()}, null)) {
+            Class<?> made = loader.loadClass("TwoInOne");
+            // All classes inside are needed before the loader is closed.
+            for (Class<?> each : made.getDeclaredClasses()) {
+                loader.loadClass(each.getName());
+            }
+            return made;
+        }
+    }
+
+    private static String put(String text, String old, String fresh) {
+        CHECK.due(old + " stands once in the program", text.split(java.util.regex.Pattern.quote(old), -1).length, 2);
+        return text.replace(old, fresh);
+    }
+
+    private static void remove(Path folder) throws IOException {
+        try (Stream<Path> all = Files.walk(folder)) {
+            for (Path each : (Iterable<Path>) all.sorted(Comparator.reverseOrder())::iterator) {
+                Files.delete(each);
+            }
+        }
+    }
+
+    private static void compare(String name, Class<?> program, int runs, double mostRows) throws ReflectiveOperationException {
+        Method feed = program.getMethod("feed", int.class, int.class, int.class, int.class, int.class);
+        Method end = program.getMethod("end", int.class);
+        for (int run = 0; run < runs; run++) {
+            Random random = new Random(run * 7919L + 13);
+            int deeds = 1 + random.nextInt(6);
+            byte[] text = text(random, deeds).getBytes(java.nio.charset.StandardCharsets.ISO_8859_1);
+            Object x = program.getConstructor().newInstance();
+            Model m = new Model();
+            for (int i = 0; i < text.length; i += 20) {
+                int[] w = Check.words(text, i);
+                feed.invoke(x, w[0], w[1], w[2], w[3], w[4]);
+                m.feed(w[0], w[1], w[2], w[3], w[4]);
+            }
+            end.invoke(x, text.length);
+            m.end(text.length);
+            CHECK.due(name + ", run " + run + ": register", call(x, "register"), m.register());
+            before(random, x, m, deeds);
+            int n = 1;
+            int most = 1 + random.nextInt(20);
+            while (n < most && Math.pow(deeds, n + 1) <= mostRows) {
+                n++;
+            }
+            Model.Tried due = m.togetherByTrying(0, n);
+            CHECK.due(name + ", run " + run + ": together(0, " + n + ")", call(x, "together", 0, n), due.most);
+            for (int t = 0; t < n; t++) {
+                CHECK.due(name + ", run " + run + ": lies(" + t + ")", call(x, "lies", t), due.best[t]);
+            }
+        }
+    }
+
+    /** What may come before the game: DAYS, a LOAD, one who is dead. */
+    private static void before(Random random, Object x, Model m, int deeds) throws ReflectiveOperationException {
+        int days = random.nextInt(3) == 0 ? random.nextInt(30) : 0;
+        CHECK.due("days", call(x, "days", days), m.days(days));
+        if (random.nextInt(4) == 0) {
+            int half = random.nextInt(3);
+            CHECK.due("die", call(x, "die", half), m.die(half));
+        }
+        if (random.nextInt(3) == 0) {
+            int deed = random.nextInt(deeds);
+            CHECK.due("decree", call(x, "decree", 0, deed), m.decree(0, deed));
+        }
+    }
+
+    private static int call(Object x, String name, int... given) throws ReflectiveOperationException {
+        Class<?>[] types = new Class<?>[given.length];
+        Object[] values = new Object[given.length];
+        for (int i = 0; i < given.length; i++) {
+            types[i] = int.class;
+            values[i] = given[i];
+        }
+        return (Integer) x.getClass().getMethod(name, types).invoke(x, values);
+    }
+
+    private static String text(Random random, int deeds) {
+        int style = random.nextInt(3);
+        StringBuilder s = new StringBuilder();
+        for (String half : new String[] {"a", "b", "c"}) {
+            s.append("half ").append(half).append(" skill ").append(random.nextInt(10)).append(";");
+        }
+        s.append("person p of a b c turn");
+        for (int i = random.nextInt(8); i >= 0; i--) {
+            s.append(" ").append(random.nextInt(3));
+        }
+        s.append(";");
+        for (int d = 0; d < deeds; d++) {
+            s.append("deed ").append((char) ('s' + d)).append(" joy ");
+            formula(s, random, true, style);
+            s.append(" load ");
+            formula(s, random, false, style);
+            s.append(";");
+        }
+        return s.toString();
+    }
+
+    private static void formula(StringBuilder s, Random random, boolean joy, int style) {
+        int parts = 1 + random.nextInt(3);
+        for (int i = 0; i < parts; i++) {
+            s.append(i == 0 ? "" : JOINTS[random.nextInt(JOINTS.length)]);
+            if (style == 2 && joy) {
+                s.append(random.nextInt(200)).append("*1000*1000*").append(1 + random.nextInt(3));
+                continue;
+            }
+            if (random.nextInt(3) == 0) {
+                s.append(random.nextInt(joy ? 10000 : 20));
+            } else {
+                s.append(WORDS[random.nextInt(WORDS.length)]);
+            }
+            if (joy && random.nextInt(style == 0 ? 2 : 5) == 0) {
+                s.append(FACTORS[random.nextInt(FACTORS.length)]);
+            }
+        }
+    }
+}
