@@ -342,7 +342,7 @@ public final class TwoInOne {
             return (int) game.mostAt(0, load);
         }
         if (fewSums == null) {
-            fewSums = new Sums(told, game, FEW_SUMS);
+            fewSums = new Sums(told, game, FEW_SUMS, 0);
         }
         fewSums.begin();
         if (fewSums.isKnown(0, load)) {
@@ -1624,9 +1624,10 @@ public final class TwoInOne {
     private static final class Sums {
         private static final int UNKNOWN = -1;
         private static final int NO_ROOM = -1;
-        private static final int MOST_MARKED = 64;
-        /** Of the bits of a sieve so many tell which of its ints one is in, for 32 in each. */
-        private static final int WORD_BITS = 5;
+        /** More bits at a time would take too long. */
+        private static final int MOST_MARKED = 1024;
+        /** A bit's number without so many of its own bits is that of the int it is in. */
+        private static final int BIT_BITS = 5;
         /** In the place of a LOAD: an earlier DEED does the same there, so this one is no way of its own. */
         private static final int SAME = -1;
 
@@ -1653,13 +1654,13 @@ public final class TwoInOne {
         private int sieveShift = 0;
         private final int[] row = new int[MOST_DAYS_ASKED];
 
-        Sums(Told told, Game game, int room) {
+        Sums(Told told, Game game, int room, int sieveRoom) {
             this.told = told;
             this.game = game;
             known = new int[Math.max(1, room)];
             pool = new int[Math.max(1, room / 4)];
             merged = new int[Math.max(1, room / 4)];
-            sieve = new int[Math.max(1, room / 2)];
+            sieve = new int[Math.max(1, sieveRoom)];
         }
 
         void begin() {
@@ -1764,6 +1765,7 @@ public final class TwoInOne {
             int first = lastUpTo(known, starts[cell], count, start - 1) + 1;
             int size = 0;
             for (int i = 0; i < count; i++) {
+                // Ints are a round, so behind the greatest the least comes.
                 int index = first + i < count ? first + i : first + i - count;
                 long behind = known[starts[cell] + index] - start & INT_MASK;
                 if (behind >= width) {
@@ -1780,7 +1782,7 @@ public final class TwoInOne {
             return size;
         }
 
-        /** From now on what is marked is wanted in a stretch; all, if too many ints are marked at a time. */
+        /** Of a stretch only what is marked from now on is wanted; but all, if too many ints would be marked at a time. */
         void beginSieve(long width, long markedAtOnce) {
             long bits = (long) sieve.length * INT_BITS;
             sieveShift = 0;
@@ -1793,19 +1795,37 @@ public final class TwoInOne {
             }
         }
 
-        /** Both are how far behind the stretch's start. */
+        /** Ints are wanted that are so far behind the stretch's start. */
         void mark(long from, long to) {
             int first = (int) (from >> sieveShift);
             int last = (int) (to >> sieveShift);
-            for (int word = Math.max(0, first >> WORD_BITS); word <= last >> WORD_BITS && word < sieve.length; word++) {
-                int bits = word == first >> WORD_BITS ? -1 << first : -1;
-                sieve[word] |= word == last >> WORD_BITS ? bits & -1 >>> INT_BITS - 1 - last : bits;
+            for (int word = Math.max(0, first >> BIT_BITS); word <= last >> BIT_BITS && word < sieve.length; word++) {
+                int bits = word == first >> BIT_BITS ? -1 << first : -1;
+                sieve[word] |= word == last >> BIT_BITS ? bits & -1 >>> INT_BITS - 1 - last : bits;
+            }
+        }
+
+        /** Of a stretch only what is at most so far behind a sum is wanted from now on. */
+        void sieveBehind(long width, long slack) {
+            beginSieve(width, slack);
+            if (!isSieved) {
+                return;
+            }
+            long gap = stretchStart - sumBefore & INT_MASK;
+            if (gap <= slack) {
+                mark(0, Math.min(width - 1, slack - gap));
+            }
+            long marked = 0;
+            for (int i = 0; i < stretchCount; i++) {
+                long behind = pool[i] - LEAST_INT & INT_MASK;
+                mark(Math.max(marked, behind), Math.min(width - 1, behind + slack));
+                marked = Math.min(width - 1, behind + slack);
             }
         }
 
         private boolean isWanted(long behind) {
             int bit = (int) (behind >> sieveShift);
-            int word = bit >> WORD_BITS;
+            int word = bit >> BIT_BITS;
             return word >= 0 && word < sieve.length && (sieve[word] >>> bit & 1) != 0;
         }
 
@@ -1849,7 +1869,7 @@ public final class TwoInOne {
             return below;
         }
 
-        /** What makes a sum the greatest int, together with what comes from there, where that is known. */
+        /** What makes a sum the greatest int of those that can come from there, where these are known. */
         int bestBehind(int t, int load, int sum) {
             int cell = Game.cell(t, load);
             int at = lastUpTo(known, starts[cell], counts[cell], GREATEST_INT - sum);
@@ -1904,6 +1924,7 @@ public final class TwoInOne {
      * then, so rows are met in their middle: the sums of the first DAYS (the front) with those of the last.
      */
     private static final class Search {
+        private static final int SIEVE_ROOM = 1 << 17;
         private static final int MOST_IN_FRONT = 1 << 17;
         private static final long MOST_WEIGHT = 1L << 40;
         private static final long MOST_PATHS = 1L << 30;
@@ -1946,7 +1967,7 @@ public final class TwoInOne {
 
         Search(Told told, Game game) {
             this.game = game;
-            sums = new Sums(told, game, MANY_SUMS);
+            sums = new Sums(told, game, MANY_SUMS, SIEVE_ROOM);
         }
 
         /** JOY of the best row, which is told. */
@@ -2260,6 +2281,7 @@ public final class TwoInOne {
                     step = Math.max(1, step / 2);
                 } else {
                     isMarking = false;
+                    sums.sieveBehind(width, slack);
                     for (int load = 0; load < Game.LOADS; load++) {
                         walk(frontDay, load, 0, load, width);
                     }
@@ -2317,6 +2339,7 @@ public final class TwoInOne {
             int at = lastInBlock(load, GREATEST_INT - joy - sums.stretchStart);
             // A sum at the stretch's end may be wanted by one that is behind it.
             long range = isMarking ? width + slack : width;
+            long from = 0;
             for (int i = 0; i < count; i++) {
                 at = at < 0 ? count - 1 : at;
                 long one = front[blocks[load] + at];
@@ -2326,8 +2349,10 @@ public final class TwoInOne {
                     return;
                 }
                 if (isMarking) {
-                    sums.mark(Math.max(0, behind - slack), Math.min(width - 1, behind));
-                } else {
+                    from = Math.max(from, behind - slack);
+                    sums.mark(from, Math.min(width - 1, behind));
+                    from = Math.min(width - 1, behind);
+                } else if (!sums.isSieved || sums.isWanted(behind)) {
                     keep(sum + sums.lastInStretch(GREATEST_INT - sum), leadOf(one), frontDay);
                 }
                 at--;

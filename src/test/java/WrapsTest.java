@@ -44,6 +44,7 @@ public final class WrapsTest {
         text = put(text, "int MANY_SUMS = 1 << 18;", "int MANY_SUMS = 1 << " + manyBits + ";");
         text = put(text, "int MOST_IN_FRONT = 1 << 17;", "int MOST_IN_FRONT = " + front + ";");
         text = put(text, "int FRONT_DAYS = 8;", "int FRONT_DAYS = " + days + ";");
+        text = put(text, "int SIEVE_ROOM = 1 << 17;", "int SIEVE_ROOM = 1 << " + days + ";");
         Files.createDirectories(folder);
         Path file = folder.resolve("TwoInOne.java");
         Files.writeString(file, text);
