@@ -1782,17 +1782,16 @@ public final class TwoInOne {
             return size;
         }
 
-        /** Of a stretch only what is marked from now on is wanted; but all, if too many ints would be marked at a time. */
+        /** Of a stretch only what is marked from now on is wanted; so many ints are marked at a time. */
         void beginSieve(long width, long markedAtOnce) {
             long bits = (long) sieve.length * INT_BITS;
             sieveShift = 0;
             for (int i = 0; i < INT_BITS && (width - 1 >> i >= bits || markedAtOnce >> i > MOST_MARKED); i++) {
                 sieveShift = i + 1;
             }
-            isSieved = markedAtOnce < ALL_INTS / 4;
-            if (isSieved) {
-                Arrays.fill(sieve, 0);
-            }
+            isSieved = true;
+            long words = (width - 1 >> sieveShift >> BIT_BITS) + 1;
+            Arrays.fill(sieve, 0, (int) Math.max(0, Math.min(sieve.length, words)), 0);
         }
 
         /** Ints are wanted that are so far behind the stretch's start. */
@@ -1808,9 +1807,6 @@ public final class TwoInOne {
         /** Of a stretch only what is at most so far behind a sum is wanted from now on. */
         void sieveBehind(long width, long slack) {
             beginSieve(width, slack);
-            if (!isSieved) {
-                return;
-            }
             long gap = stretchStart - sumBefore & INT_MASK;
             if (gap <= slack) {
                 mark(0, Math.min(width - 1, slack - gap));
@@ -2264,7 +2260,8 @@ public final class TwoInOne {
             markPaths(middleLoad);
             slack = (long) GREATEST_INT - best;
             int start = (int) game.mostAt(middleDay, middleLoad);
-            long longest = longestStep(middleLoad);
+            // Marks are few among the sieve's bits so.
+            long longest = Math.max(1, ALL_INTS / (1 + flow[middleLoad] / 4 / sums.sieve.length));
             long step = longest;
             long done = 0;
             sums.sumBefore = start;
@@ -2273,7 +2270,7 @@ public final class TwoInOne {
                 sums.stretchStart = start + (int) done;
                 sums.beginSieve(width, slack);
                 isMarking = true;
-                for (int load = 0; load < Game.LOADS && sums.isSieved; load++) {
+                for (int load = 0; load < Game.LOADS; load++) {
                     walk(frontDay, load, 0, load, width);
                 }
                 sums.stretchCount = sums.merge(middleDay, middleLoad, sums.stretchStart, width, 0);
@@ -2290,14 +2287,6 @@ public final class TwoInOne {
                     step = sums.stretchCount < sums.pool.length / 8 ? Math.min(longest, step * 2) : step;
                 }
             }
-        }
-
-        /** With a sieve the marks should be few among its bits; without it the sums should have room. */
-        private long longestStep(int middleLoad) {
-            sums.beginSieve(ALL_INTS, slack);
-            long parts = sums.isSieved ? flow[middleLoad] / 4 / sums.sieve.length
-                : weights[Game.cell(middleDay, middleLoad)] * 4 / sums.pool.length;
-            return Math.max(1, ALL_INTS / (1 + parts));
         }
 
         private void markPaths(int middleLoad) {
@@ -2352,7 +2341,7 @@ public final class TwoInOne {
                     from = Math.max(from, behind - slack);
                     sums.mark(from, Math.min(width - 1, behind));
                     from = Math.min(width - 1, behind);
-                } else if (!sums.isSieved || sums.isWanted(behind)) {
+                } else if (sums.isWanted(behind)) {
                     keep(sum + sums.lastInStretch(GREATEST_INT - sum), leadOf(one), frontDay);
                 }
                 at--;

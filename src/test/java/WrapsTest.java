@@ -26,10 +26,11 @@ public final class WrapsTest {
         Path folder = Files.createTempDirectory("wraps");
         try {
             compare("as it is", TwoInOne.class, runs / 4, 300000);
-            compare("next to no room", tight(folder.resolve("a"), 3, 6, "64", 8), runs, 20000);
-            compare("a short front", tight(folder.resolve("b"), 3, 8, "16", 2), runs, 20000);
-            compare("little room", tight(folder.resolve("c"), 5, 10, "1000", 5), runs, 20000);
-            compare("a large front", tight(folder.resolve("d"), 3, 6, "1 << 14", 8), runs, 20000);
+            compare("next to no room", tight(folder.resolve("a"), 3, 6, "64", 8, 8), runs, 20000);
+            compare("a short front", tight(folder.resolve("b"), 3, 8, "16", 2, 2), runs, 20000);
+            compare("little room", tight(folder.resolve("c"), 5, 10, "1000", 5, 5), runs, 20000);
+            compare("a large front", tight(folder.resolve("d"), 3, 6, "1 << 14", 8, 5), runs, 20000);
+            compare("a fine sieve", tight(folder.resolve("e"), 3, 8, "64", 3, 12), runs, 20000);
         } finally {
             remove(folder);
         }
@@ -37,14 +38,14 @@ public final class WrapsTest {
     }
 
     /** The program with other numbers for its room. */
-    private static Class<?> tight(Path folder, int fewBits, int manyBits, String front, int days)
+    private static Class<?> tight(Path folder, int fewBits, int manyBits, String front, int days, int sieveBits)
             throws ReflectiveOperationException, IOException {
         String text = Files.readString(Path.of(PROGRAM));
         text = put(text, "int FEW_SUMS = 1 << 15;", "int FEW_SUMS = 1 << " + fewBits + ";");
         text = put(text, "int MANY_SUMS = 1 << 18;", "int MANY_SUMS = 1 << " + manyBits + ";");
         text = put(text, "int MOST_IN_FRONT = 1 << 17;", "int MOST_IN_FRONT = " + front + ";");
         text = put(text, "int FRONT_DAYS = 8;", "int FRONT_DAYS = " + days + ";");
-        text = put(text, "int SIEVE_ROOM = 1 << 17;", "int SIEVE_ROOM = 1 << " + days + ";");
+        text = put(text, "int SIEVE_ROOM = 1 << 17;", "int SIEVE_ROOM = 1 << " + sieveBits + ";");
         Files.createDirectories(folder);
         Path file = folder.resolve("TwoInOne.java");
         Files.writeString(file, text);
@@ -129,7 +130,7 @@ public final class WrapsTest {
     }
 
     private static String text(Random random, int deeds) {
-        int style = random.nextInt(3);
+        int style = random.nextInt(5);
         StringBuilder s = new StringBuilder();
         for (String half : new String[] {"a", "b", "c"}) {
             s.append("half ").append(half).append(" skill ").append(random.nextInt(10)).append(";");
@@ -151,6 +152,14 @@ public final class WrapsTest {
 
     private static void formula(StringBuilder s, Random random, boolean joy, int style) {
         int parts = 1 + random.nextInt(3);
+        if (joy && style == 3) {
+            nearTheTop(s, random);
+            return;
+        }
+        if (joy && style == 4) {
+            withLowBitsAlike(s, random);
+            return;
+        }
         for (int i = 0; i < parts; i++) {
             s.append(i == 0 ? "" : JOINTS[random.nextInt(JOINTS.length)]);
             if (style == 2 && joy) {
@@ -166,5 +175,21 @@ public final class WrapsTest {
                 s.append(FACTORS[random.nextInt(FACTORS.length)]);
             }
         }
+    }
+
+    /** Many sums lie close together, just below and just above the greatest int. */
+    private static void nearTheTop(StringBuilder s, Random random) {
+        if (random.nextInt(3) == 0) {
+            s.append("(day%").append(2 + random.nextInt(4)).append("=0)*(2147*1000*1000+483*1000+").append(random.nextInt(700));
+            s.append(")+");
+        }
+        String[] small = {"load%7*6", "day%5*10", "15", "0", "again*6", "load%13", "6*day", "skill*10", "load*2"};
+        s.append(small[random.nextInt(small.length)]);
+    }
+
+    /** On each DAY all have the same low bits, so that the greatest int can't come. */
+    private static void withLowBitsAlike(StringBuilder s, Random random) {
+        s.append("day%4+(load*").append(random.nextInt(30)).append("+skill*day+").append(random.nextInt(300)).append(")*4096*4096");
+        s.append(random.nextBoolean() ? "*4" : "*12");
     }
 }
