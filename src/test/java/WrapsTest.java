@@ -26,10 +26,10 @@ public final class WrapsTest {
         Path folder = Files.createTempDirectory("wraps");
         try {
             compare("as it is", TwoInOne.class, runs / 4, 300000);
-            compare("next to no room", tight(folder.resolve("a"), 3, 6, "64", 8, 8), runs, 20000);
+            compare("next to no room", tight(folder.resolve("a"), 3, 7, "64", 8, 8), runs, 20000);
             compare("a short front", tight(folder.resolve("b"), 3, 8, "16", 2, 2), runs, 20000);
             compare("little room", tight(folder.resolve("c"), 5, 10, "1000", 5, 5), runs, 20000);
-            compare("a large front", tight(folder.resolve("d"), 3, 6, "1 << 14", 8, 5), runs, 20000);
+            compare("a large front", tight(folder.resolve("d"), 3, 7, "1 << 14", 8, 5), runs, 20000);
             compare("a fine sieve", tight(folder.resolve("e"), 3, 8, "64", 3, 12), runs, 20000);
         } finally {
             remove(folder);
