@@ -18,6 +18,8 @@ public final class WrapsTest {
     private static final String PROGRAM = "src/main/java/TwoInOne.java";
     private static final String[] FACTORS = {"", "*7919", "*9973*9901", "*9999*9999", "*9999*9999*9999", "*4096*4", "*4096*16",
         "*1000*1000", "*1234*987*13", "*5003*4999*7", "*8192*2*8192*8", "*100*1000*1000", "*119*1000*1000"};
+    /** Of the runs with sums close together those in which a mark at an edge that was left out changed the answer. */
+    private static final int[] AT_EDGES = {412, 749, 918, 2165, 4733, 6671};
     private static final String[] WORDS = {"load", "day", "skill", "again", "load", "day"};
     private static final String[] JOINTS = {"+", "-", "*", "+", "*", "%"};
 
@@ -31,6 +33,8 @@ public final class WrapsTest {
             compare("little room", tight(folder.resolve("c"), 5, 10, "1000", 5, 5), runs, 20000);
             compare("a large front", tight(folder.resolve("d"), 3, 7, "1 << 14", 8, 5), runs, 20000);
             compare("a fine sieve", tight(folder.resolve("e"), 3, 8, "64", 3, 12), runs, 20000);
+            compareClose("close together", tight(folder.resolve("f"), 3, 7, "32", 3, 8), 3 * runs);
+            compareClose("close together, more in front", tight(folder.resolve("g"), 3, 7, "512", 4, 12), 3 * runs);
         } finally {
             remove(folder);
         }
@@ -75,33 +79,61 @@ public final class WrapsTest {
     }
 
     private static void compare(String name, Class<?> program, int runs, double mostRows) throws ReflectiveOperationException {
-        Method feed = program.getMethod("feed", int.class, int.class, int.class, int.class, int.class);
-        Method end = program.getMethod("end", int.class);
         for (int run = 0; run < runs; run++) {
             Random random = new Random(run * 7919L + 13);
             int deeds = 1 + random.nextInt(6);
-            byte[] text = text(random, deeds).getBytes(java.nio.charset.StandardCharsets.ISO_8859_1);
-            Object x = program.getConstructor().newInstance();
             Model m = new Model();
-            for (int i = 0; i < text.length; i += 20) {
-                int[] w = Check.words(text, i);
-                feed.invoke(x, w[0], w[1], w[2], w[3], w[4]);
-                m.feed(w[0], w[1], w[2], w[3], w[4]);
-            }
-            end.invoke(x, text.length);
-            m.end(text.length);
-            CHECK.due(name + ", run " + run + ": register", call(x, "register"), m.register());
+            Object x = register(name + ", run " + run, program, m, text(random, deeds));
             before(random, x, m, deeds);
             int n = 1;
             int most = 1 + random.nextInt(20);
             while (n < most && Math.pow(deeds, n + 1) <= mostRows) {
                 n++;
             }
-            Model.Tried due = m.togetherByTrying(0, n);
-            CHECK.due(name + ", run " + run + ": together(0, " + n + ")", call(x, "together", 0, n), due.most);
-            for (int t = 0; t < n; t++) {
-                CHECK.due(name + ", run " + run + ": lies(" + t + ")", call(x, "lies", t), due.best[t]);
-            }
+            together(name + ", run " + run, x, m, n);
+        }
+    }
+
+    /** Many sums lie within some hundred ints, so stretches are short, and the best may be at their edges. */
+    private static void compareClose(String name, Class<?> program, int runs) throws ReflectiveOperationException {
+        for (int run = 0; run < runs; run++) {
+            close(name, program, run);
+        }
+        for (int run : AT_EDGES) {
+            close(name, program, run);
+        }
+    }
+
+    private static void close(String name, Class<?> program, int run) throws ReflectiveOperationException {
+        Random random = new Random(run * 104729L + 7);
+        int deeds = 2 + random.nextInt(3);
+        Model m = new Model();
+        Object x = register(name + ", run " + run, program, m, closeText(random, deeds));
+        int n = deeds == 2 ? 13 : deeds == 3 ? 8 : 6;
+        together(name + ", run " + run, x, m, n + random.nextInt(2));
+    }
+
+    private static Object register(String name, Class<?> program, Model m, String told) throws ReflectiveOperationException {
+        Method feed = program.getMethod("feed", int.class, int.class, int.class, int.class, int.class);
+        Method end = program.getMethod("end", int.class);
+        byte[] text = told.getBytes(java.nio.charset.StandardCharsets.ISO_8859_1);
+        Object x = program.getConstructor().newInstance();
+        for (int i = 0; i < text.length; i += 20) {
+            int[] w = Check.words(text, i);
+            feed.invoke(x, w[0], w[1], w[2], w[3], w[4]);
+            m.feed(w[0], w[1], w[2], w[3], w[4]);
+        }
+        end.invoke(x, text.length);
+        m.end(text.length);
+        CHECK.due(name + ": register", call(x, "register"), m.register());
+        return x;
+    }
+
+    private static void together(String name, Object x, Model m, int n) throws ReflectiveOperationException {
+        Model.Tried due = m.togetherByTrying(0, n);
+        CHECK.due(name + ": together(0, " + n + ")", call(x, "together", 0, n), due.most);
+        for (int t = 0; t < n; t++) {
+            CHECK.due(name + ": lies(" + t + ")", call(x, "lies", t), due.best[t]);
         }
     }
 
@@ -130,7 +162,7 @@ public final class WrapsTest {
     }
 
     private static String text(Random random, int deeds) {
-        int style = random.nextInt(5);
+        int style = random.nextInt(6);
         StringBuilder s = new StringBuilder();
         for (String half : new String[] {"a", "b", "c"}) {
             s.append("half ").append(half).append(" skill ").append(random.nextInt(10)).append(";");
@@ -158,6 +190,10 @@ public final class WrapsTest {
         }
         if (joy && style == 4) {
             withLowBitsAlike(s, random);
+            return;
+        }
+        if (joy && style == 5) {
+            atTheEdges(s, random);
             return;
         }
         for (int i = 0; i < parts; i++) {
@@ -191,5 +227,29 @@ public final class WrapsTest {
     private static void withLowBitsAlike(StringBuilder s, Random random) {
         s.append("day%4+(load*").append(random.nextInt(30)).append("+skill*day+").append(random.nextInt(300)).append(")*4096*4096");
         s.append(random.nextBoolean() ? "*4" : "*12");
+    }
+
+    /** Sums lie at the edges of stretches, which are parts of all ints by powers of 2, or one or two beside them. */
+    private static void atTheEdges(StringBuilder s, Random random) {
+        String[] small = {"load%3", "load%2", "1", "0", "0-load%3", "again", "0-again", "day%2", "0", "2"};
+        s.append("(load*").append(random.nextInt(5)).append("+day*").append(random.nextInt(4)).append("+").append(random.nextInt(64));
+        s.append(")*4096*4096").append(random.nextBoolean() ? "*4" : random.nextBoolean() ? "*2" : "*8");
+        s.append("+").append(small[random.nextInt(small.length)]);
+    }
+
+    /** On the first DAY JOY is so great that what comes then leads just to the greatest int, or beyond it. */
+    private static String closeText(Random random, int deeds) {
+        StringBuilder s = new StringBuilder("half a skill 3;half b skill 8;person p of a b turn 0 1 1;");
+        int step = 1 + random.nextInt(4);
+        int below = random.nextInt(500);
+        for (int d = 0; d < deeds; d++) {
+            s.append("deed ").append((char) ('s' + d)).append(" joy (day=0)*(8192*8192*32-").append(1 + below).append(")");
+            s.append(random.nextInt(4) == 0 ? "-(" : "+(").append("load*").append(random.nextInt(40)).append("+day*");
+            s.append(random.nextInt(40)).append("+").append(random.nextInt(60)).append(")%").append(20 + random.nextInt(80));
+            s.append("*").append(step);
+            s.append(" load ").append("(load*").append(1 + random.nextInt(9)).append("+").append(random.nextInt(30));
+            s.append(")%").append(1 + random.nextInt(4)).append(";");
+        }
+        return s.toString();
     }
 }
