@@ -986,6 +986,7 @@ public final class TwoInOne {
                 token = END;
             } else if (isLetter(start)) {
                 scanWord();
+                token = behind - start > LONGEST_WORD ? BAD : wordToken(behind - start);
             } else if (isDigit(start)) {
                 scanNumber();
             } else {
@@ -1000,7 +1001,6 @@ public final class TwoInOne {
                 name = name * 27 + (text[behind] - 'a' + 1);
                 behind++;
             }
-            token = behind - start > LONGEST_WORD ? BAD : wordToken(behind - start);
         }
 
         private void scanNumber() {
@@ -1742,7 +1742,7 @@ public final class TwoInOne {
         }
 
         /** Those sums from there on that lie in a stretch of ints come into the pool: how many; t bounds the depth. */
-        int merge(int t, int load, int start, long width, int at) {
+        private int merge(int t, int load, int start, long width, int at) {
             if (t >= game.length || isKnown(t, load)) {
                 return slice(Game.cell(t, load), start, width, at);
             }
@@ -1854,7 +1854,7 @@ public final class TwoInOne {
         private static int lastUpTo(int[] numbers, int start, int count, int number) {
             int below = -1;
             int above = count;
-            while (above - below > 1) {
+            for (int i = 0; i < INT_BITS && above - below > 1; i++) {
                 int between = (below + above) / 2;
                 if (numbers[start + between] <= number) {
                     below = between;
@@ -2352,7 +2352,7 @@ public final class TwoInOne {
         private int lastInBlock(int load, int number) {
             int below = -1;
             int above = blocks[load + 1] - blocks[load];
-            while (above - below > 1) {
+            for (int i = 0; i < INT_BITS && above - below > 1; i++) {
                 int between = (below + above) / 2;
                 if (sumOf(front[blocks[load] + between]) <= number) {
                     below = between;
