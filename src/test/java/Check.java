@@ -1,4 +1,9 @@
+import java.io.IOException;
 import java.nio.charset.StandardCharsets;
+import java.nio.file.Files;
+import java.nio.file.Path;
+import java.util.Comparator;
+import java.util.stream.Stream;
 
 /** Counts answers that are not as due, and feeds texts. */
 final class Check {
@@ -101,5 +106,14 @@ final class Check {
 
     static String times(String text, int n) {
         return text.repeat(n);
+    }
+
+    /** A folder goes, with all that is in it. */
+    static void remove(Path folder) throws IOException {
+        try (Stream<Path> all = Files.walk(folder)) {
+            for (Path each : (Iterable<Path>) all.sorted(Comparator.reverseOrder())::iterator) {
+                Files.delete(each);
+            }
+        }
     }
 }

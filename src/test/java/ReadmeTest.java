@@ -2,12 +2,12 @@ import java.io.ByteArrayOutputStream;
 import java.io.IOException;
 import java.io.PrintStream;
 import java.lang.reflect.Method;
+import java.lang.reflect.Modifier;
 import java.net.URL;
 import java.net.URLClassLoader;
 import java.nio.charset.StandardCharsets;
 import java.nio.file.Files;
 import java.nio.file.Path;
-import java.util.Comparator;
 import java.util.stream.Stream;
 import javax.tools.ToolProvider;
 
@@ -22,7 +22,7 @@ public final class ReadmeTest {
             String printed = run(folder, part(page, "java"));
             CHECK.due("the example prints\n" + printed, printed.equals(part(page, "text")), true);
         } finally {
-            remove(folder);
+            Check.remove(folder);
         }
         calls(page);
         tests(page);
@@ -57,7 +57,7 @@ public final class ReadmeTest {
 
     private static void calls(String page) {
         for (Method method : TwoInOne.class.getDeclaredMethods()) {
-            if (java.lang.reflect.Modifier.isPublic(method.getModifiers())) {
+            if (Modifier.isPublic(method.getModifiers())) {
                 CHECK.due(method.getName() + " is named", page.contains("`" + method.getName() + "`"), true);
             }
         }
@@ -70,14 +70,6 @@ public final class ReadmeTest {
                 if (name.endsWith("Test")) {
                     CHECK.due(name + " is named", page.contains("\n| " + name + " |"), true);
                 }
-            }
-        }
-    }
-
-    private static void remove(Path folder) throws IOException {
-        try (Stream<Path> all = Files.walk(folder)) {
-            for (Path each : (Iterable<Path>) all.sorted(Comparator.reverseOrder())::iterator) {
-                Files.delete(each);
             }
         }
     }

@@ -4,9 +4,7 @@ import java.net.URL;
 import java.net.URLClassLoader;
 import java.nio.file.Files;
 import java.nio.file.Path;
-import java.util.Comparator;
 import java.util.Random;
-import java.util.stream.Stream;
 import javax.tools.ToolProvider;
 
 /**
@@ -36,7 +34,7 @@ public final class WrapsTest {
             compareClose("close together", tight(folder.resolve("f"), 3, 7, "32", 3, 8), 3 * runs);
             compareClose("close together, more in front", tight(folder.resolve("g"), 3, 7, "512", 4, 12), 3 * runs);
         } finally {
-            remove(folder);
+            Check.remove(folder);
         }
         CHECK.finish();
     }
@@ -68,14 +66,6 @@ public final class WrapsTest {
     private static String put(String text, String old, String fresh) {
         CHECK.due(old + " stands once in the program", text.split(java.util.regex.Pattern.quote(old), -1).length, 2);
         return text.replace(old, fresh);
-    }
-
-    private static void remove(Path folder) throws IOException {
-        try (Stream<Path> all = Files.walk(folder)) {
-            for (Path each : (Iterable<Path>) all.sorted(Comparator.reverseOrder())::iterator) {
-                Files.delete(each);
-            }
-        }
     }
 
     private static void compare(String name, Class<?> program, int runs, double mostRows) throws ReflectiveOperationException {
